@@ -1,0 +1,168 @@
+import java.util.ArrayList;
+import java.util.List;
+import java.util.function.Supplier;
+
+/** Promises 54 to 57. */
+public final class UndoTest {
+    public static void main(String[] args) {
+        nothingToUndo();
+        eachChange();
+        atMostEight();
+        failedCallsAndQuestionsAreNoChanges();
+        numbersAreUndone();
+        textBuffer();
+        snapshot();
+        snapshotIsKept();
+        snapshotEndsUndo();
+        Check.end();
+    }
+
+    private static void nothingToUndo() {
+        PetitionBoard board = new PetitionBoard();
+        Check.is("55 none", board.undoCount(), 0);
+        Check.illegalState("54 none", () -> board.undo());
+        board.addOfficer(1);
+        Check.is("55 one", board.undoCount(), 1);
+        Check.is("54 answers none", board.undo(), 0);
+        Check.is("54 undone", board.officerCount(), 0);
+        Check.illegalState("54 none again", () -> board.undo());
+    }
+
+    /** Undoes each kind of change and compares everything that is to be seen. */
+    private static void eachChange() {
+        PetitionBoard board = Boards.addStones(Boards.withOfficers(5, 6, 7), 3);
+        Boards.rule(board, true);
+        board.file(0, 1, 20, 3);
+        board.file(1, 2, 21, 4);
+        board.vote(0, 2, true);
+        board.vote(2, 2, true);
+        List<Supplier<Object>> changes = new ArrayList<>();
+        changes.add(() -> board.addStone(9, 9));
+        changes.add(() -> board.addOfficer(9));
+        changes.add(() -> board.setQuorum(4));
+        changes.add(() -> board.file(2, 0, 22, 1));
+        changes.add(() -> board.vote(1, 1, false));
+        changes.add(() -> board.cite(1, 0));
+        changes.add(() -> board.veto(2, 2));
+        changes.add(() -> board.withdraw(1));
+        changes.add(() -> board.decide());
+        changes.add(() -> Boards.execute(board, "withdraw 1;decide;stone 9 9;officer 1"));
+        for (int i = 0; i < changes.size(); i++) {
+            String before = Boards.look(board);
+            changes.get(i).get();
+            Check.is("54 change " + i + " changes", Boards.look(board).equals(before), false);
+            Check.is("54 change " + i + " answers", board.undo(), 7);
+            Check.is("54 change " + i + " is undone", Boards.look(board), before);
+            board.saveSnapshot();
+            changes.get(i).get();
+            board.restoreSnapshot();
+            Check.is("57 change " + i + " is taken back", Boards.look(board), before);
+            for (int j = 0; j < 8; j++) {
+                board.setQuorum(j % 2 == 0 ? 1 : 2);
+            }
+        }
+    }
+
+    private static void atMostEight() {
+        PetitionBoard board = new PetitionBoard();
+        List<String> looks = new ArrayList<>();
+        for (int i = 0; i < 30; i++) {
+            looks.add(Boards.look(board));
+            board.setQuorum(i % 2 == 0 ? 1 : i / 2 % 4 + 2);
+            Check.is("55 after " + (i + 1), board.undoCount(), Math.min(i + 1, 8));
+        }
+        for (int i = 7; i >= 0; i--) {
+            Check.is("54 answers " + i, board.undo(), i);
+            Check.is("54 back to " + (22 + i), Boards.look(board), looks.get(22 + i));
+        }
+        Check.illegalState("54 older ones are forgotten", () -> board.undo());
+        board.setQuorum(board.quorum() == 5 ? 4 : 5);
+        Check.is("55 one again", board.undoCount(), 1);
+    }
+
+    private static void failedCallsAndQuestionsAreNoChanges() {
+        PetitionBoard board = Boards.ready(2, 1);
+        String before = Boards.look(board);
+        Check.is("55 three", board.undoCount(), 3);
+        Check.denied("24 denied", board, 11, 2, () -> board.setQuorum(2));
+        Check.outside("2 outside", () -> board.addStone(25, 1));
+        Check.unfit("3 unfit", () -> board.addOfficer(0));
+        Check.absent("15 absent", () -> board.withdraw(0));
+        Check.unfit("45 unfit", () -> Boards.execute(board, "x"));
+        Check.denied("45 denied", board, 12, 1, () -> Boards.execute(board, "quorum 1;decide"));
+        board.saveSnapshot();
+        board.writeRow(0);
+        board.feed('x');
+        Check.is("55 still three", board.undoCount(), 3);
+        Check.is("54 nothing changed", Boards.look(board), before);
+        Check.is("54 answers two", board.undo(), 2);
+        Check.is("54 the stone is undone", board.stoneCount(), 0);
+    }
+
+    private static void numbersAreUndone() {
+        PetitionBoard board = Boards.ready(2, 2);
+        board.saveSnapshot();
+        Check.is("54 number 0", board.file(0, 0, 20, 0), 0);
+        board.undo();
+        Check.is("54 number 0 again", board.file(0, 1, 20, 0), 0);
+        Check.is("57 number 1", board.file(0, 0, 20, 0), 1);
+        board.restoreSnapshot();
+        Check.is("57 number 0 once more", board.file(1, 0, 20, 0), 0);
+    }
+
+    private static void textBuffer() {
+        PetitionBoard board = Boards.ready(1, 1);
+        Boards.feed(board, "quorum ");
+        board.saveSnapshot();
+        board.undo();
+        board.restoreSnapshot();
+        Check.is("54, 57 the text stays", board.feed('1'), 8);
+        Check.is("45 executes", board.execute(), 1);
+        board.undo();
+        Check.is("54 the buffer stays empty", board.feed('x'), 1);
+    }
+
+    private static void snapshot() {
+        PetitionBoard board = Boards.ready(3, 3);
+        Check.illegalState("57 no snapshot", () -> board.restoreSnapshot());
+        board.file(0, 0, 20, 0);
+        board.file(0, 1, 20, 0);
+        Check.is("56 answers the pending", board.saveSnapshot(), 2);
+        String saved = Boards.look(board);
+        Boards.execute(board, "withdraw 0;yes 1 1;yes 2 1;decide;file 1 2 9 9;cite 2 0");
+        board.setQuorum(1);
+        Check.is("57 answers the pending", board.restoreSnapshot(), 2);
+        Check.is("57 restored", Boards.look(board), saved);
+    }
+
+    private static void snapshotIsKept() {
+        PetitionBoard board = Boards.ready(3, 3);
+        board.saveSnapshot();
+        String saved = Boards.look(board);
+        for (int i = 0; i < 2; i++) {
+            board.file(0, i, 20, 0);
+            board.restoreSnapshot();
+            Check.is("57 restored, time " + i, Boards.look(board), saved);
+        }
+        board.file(0, 2, 20, 0);
+        board.saveSnapshot();
+        String later = Boards.look(board);
+        board.undo();
+        Check.is("54 undone", Boards.look(board), saved);
+        board.restoreSnapshot();
+        Check.is("56 the later one replaces the earlier, over undo", Boards.look(board), later);
+    }
+
+    private static void snapshotEndsUndo() {
+        PetitionBoard board = Boards.ready(3, 3);
+        Check.is("56 answers none pending", board.saveSnapshot(), 0);
+        Check.is("56 saving forgets nothing", board.undoCount(), 6);
+        board.setQuorum(1);
+        board.restoreSnapshot();
+        Check.is("57 forgets", board.undoCount(), 0);
+        Check.illegalState("57 nothing to undo", () -> board.undo());
+        board.setQuorum(3);
+        Check.is("54 a later change", board.undo(), 0);
+        Check.is("54 is undone", board.quorum(), 2);
+    }
+}
