@@ -1214,13 +1214,18 @@ public final class PetitionBoard {
             }
             command.begin(letter);
             for (int i = 0; i < pattern.length(); i++) {
-                char part = pattern.charAt(i);
-                boolean isValue = part == 'D' || part == 'N';
-                if (isValue ? !readValue(text, command, part == 'N') : !readSign(text, part)) {
+                if (!readPart(text, command, pattern.charAt(i))) {
                     return false;
                 }
             }
             return true;
+        }
+
+        private boolean readPart(Line text, Command command, char part) {
+            if (part == 'D' || part == 'N') {
+                return readValue(text, command, part == 'N');
+            }
+            return readSign(text, part);
         }
 
         /** D stands for a digit, N for a number. */

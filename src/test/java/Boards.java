@@ -66,7 +66,7 @@ final class Boards {
         return line.toString();
     }
 
-    /** Everything that changes can change, as far as the questions tell it. */
+    /** Everything that changes can change, as far as the questions tell it; replaces the output line. */
     static String look(PetitionBoard board) {
         StringBuilder look = new StringBuilder("stones");
         for (int i = 0; i < board.stoneCount(); i++) {
@@ -78,10 +78,8 @@ final class Boards {
         }
         look.append(" queue");
         for (int i = 0; i < board.pendingCount(); i++) {
-            int petition = board.petitionAt(i);
-            look.append(' ').append(petition).append(':').append(board.stoneOf(petition))
-                    .append('>').append(board.targetOf(petition)).append('+').append(board.votesFor(petition))
-                    .append('-').append(board.votesAgainst(petition)).append(board.wouldBeGranted(petition));
+            board.writePetition(board.petitionAt(i));
+            look.append(' ').append(line(board));
         }
         look.append(" rulings");
         for (int i = 0; i < board.rulingCount(); i++) {

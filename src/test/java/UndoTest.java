@@ -14,6 +14,8 @@ public final class UndoTest {
         snapshot();
         snapshotIsKept();
         snapshotEndsUndo();
+        anotherPast();
+        anotherFirstRuling();
         Check.end();
     }
 
@@ -57,8 +59,9 @@ public final class UndoTest {
             changes.get(i).get();
             board.restoreSnapshot();
             Check.is("57 change " + i + " is taken back", Boards.look(board), before);
-            for (int j = 0; j < 8; j++) {
-                board.setQuorum(j % 2 == 0 ? 1 : 2);
+            // Ten changes, so that no row of the past looks like the present.
+            for (int quorum : new int[] {1, 3, 4, 5, 1, 3, 4, 5, 1, 2}) {
+                board.setQuorum(quorum);
             }
         }
     }
@@ -68,9 +71,10 @@ public final class UndoTest {
         List<String> looks = new ArrayList<>();
         for (int i = 0; i < 30; i++) {
             looks.add(Boards.look(board));
-            board.setQuorum(i % 2 == 0 ? 1 : i / 2 % 4 + 2);
+            board.setQuorum(i % 2 == 0 ? 1 : i / 2 % 3 + 2);
             Check.is("55 after " + (i + 1), board.undoCount(), Math.min(i + 1, 8));
         }
+        Check.unfit("24 a call that fails takes no room from the changes", () -> board.setQuorum(6));
         for (int i = 7; i >= 0; i--) {
             Check.is("54 answers " + i, board.undo(), i);
             Check.is("54 back to " + (22 + i), Boards.look(board), looks.get(22 + i));
@@ -164,5 +168,61 @@ public final class UndoTest {
         board.setQuorum(3);
         Check.is("54 a later change", board.undo(), 0);
         Check.is("54 is undone", board.quorum(), 2);
+    }
+
+    /** What was undone and then done otherwise comes back as it was saved. */
+    private static void anotherPast() {
+        PetitionBoard board = Boards.ready(5, 2);
+        Boards.rule(board, false);
+        board.addOfficer(9);
+        board.addStone(7, 9);
+        int petition = board.file(0, 0, 20, 8);
+        board.cite(petition, 0);
+        board.vote(1, petition, true);
+        board.vote(2, petition, true);
+        board.decide();
+        board.file(0, 1, 9, 6);
+        board.saveSnapshot();
+        String saved = Boards.look(board);
+        for (int i = 0; i < 8; i++) {
+            board.undo();
+        }
+        board.addOfficer(2);
+        board.addStone(8, 3);
+        board.file(1, 0, 21, 2);
+        board.vote(2, 1, false);
+        board.vote(3, 1, false);
+        board.decide();
+        board.file(2, 2, 10, 1);
+        String other = Boards.look(board);
+        board.undo();
+        board.undo();
+        board.vote(0, 1, true);
+        board.vote(4, 1, true);
+        board.vote(5, 1, true);
+        board.decide();
+        Check.is("54 granted this time", board.isGranted(1), true);
+        board.undo();
+        board.undo();
+        board.undo();
+        board.undo();
+        board.decide();
+        board.file(2, 2, 10, 1);
+        Check.is("54 as before", Boards.look(board), other);
+        board.restoreSnapshot();
+        Check.is("57 as saved", Boards.look(board), saved);
+    }
+
+    private static void anotherFirstRuling() {
+        PetitionBoard board = Boards.ready(3, 1);
+        Boards.rule(board, true);
+        board.saveSnapshot();
+        for (int i = 0; i < 4; i++) {
+            board.undo();
+        }
+        Boards.rule(board, false);
+        board.restoreSnapshot();
+        Check.is("57 granted as saved", board.isGranted(0), true);
+        Check.is("57 carried out as saved", board.isCarriedOut(0), true);
     }
 }
