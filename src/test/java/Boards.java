@@ -11,7 +11,7 @@ final class Boards {
         return board;
     }
 
-    /** Stone i lies in cell i and has the weight i + 1. */
+    /** Stone i lies in cell i and has the weight i + 1, but the tenth has the weight 1. */
     static PetitionBoard addStones(PetitionBoard board, int stones) {
         for (int i = 0; i < stones; i++) {
             board.addStone(i, i % 9 + 1);
@@ -28,6 +28,23 @@ final class Boards {
         return addStones(board, stones);
     }
 
+    /** Petition i is for stone i; all ask for cell 20, and the later ones come later. */
+    static PetitionBoard filePetitions(PetitionBoard board, int petitions) {
+        for (int i = 0; i < petitions; i++) {
+            board.file(0, i, 20, 0);
+        }
+        return board;
+    }
+
+    /** Six officers, ten stones and rulings without citations. */
+    static PetitionBoard withRulings(int rulings) {
+        PetitionBoard board = ready(6, 10);
+        for (int i = 0; i < rulings; i++) {
+            rule(board, true);
+        }
+        return board;
+    }
+
     /** Decides a petition of officer 0 for stone 0 with the votes of officers 1 and 2. */
     static int rule(PetitionBoard board, boolean isGranted, int... precedents) {
         int target = board.cellOf(0) == 24 ? 23 : 24;
@@ -38,6 +55,60 @@ final class Boards {
         board.vote(1, petition, isGranted);
         board.vote(2, petition, isGranted);
         return board.decide();
+    }
+
+    /** Something of everything that a call could spoil; the petitions 7, 9 and 6 are pending, in this order. */
+    static PetitionBoard busy() {
+        PetitionBoard board = addStones(withOfficers(5, 3, 7, 5, 9), 6);
+        rule(board, true);
+        board.saveSnapshot();
+        rule(board, false);
+        rule(board, true, 0, 1);
+        board.file(1, 5, 20, 9);
+        board.veto(0, 3);
+        board.withdraw(board.file(1, 5, 20, 9));
+        Boards.feed(board, "officer x");
+        Check.answer(() -> board.execute());
+        board.file(3, 4, 22, 9);
+        board.withdraw(5);
+        board.file(1, 1, 20, 4);
+        board.file(0, 2, 20, 7);
+        board.withdraw(board.file(0, 3, 21, 7));
+        board.file(3, 3, 0, 7);
+        board.cite(7, 2);
+        board.cite(7, 0);
+        board.vote(1, 7, true);
+        board.vote(2, 7, false);
+        board.vote(2, 6, true);
+        Boards.feed(board, "quorum 3;quorum 3");
+        Check.answer(() -> board.execute());
+        board.writeRow(4);
+        feed(board, "quorum ");
+        return board;
+    }
+
+    /** Each limit is reached; the stones 8 and 9 are free, and the first petition has all its votes. */
+    static PetitionBoard full() {
+        PetitionBoard board = ready(6, 10);
+        rule(board, true);
+        rule(board, false, 0);
+        board.saveSnapshot();
+        rule(board, true, 1, 0);
+        for (int i = 3; i < 16; i++) {
+            rule(board, i % 3 != 1, i - 1, i - 3, i - 2);
+        }
+        for (int i = 0; i < 8; i++) {
+            board.file(i % 6, i, 20, i);
+        }
+        int first = board.petitionAt(0);
+        for (int officer : new int[] {0, 2, 3, 4, 5}) {
+            board.vote(officer, first, officer < 3);
+        }
+        for (int ruling : new int[] {15, 0, 10}) {
+            board.cite(first, ruling);
+        }
+        feed(board, "decide;decide;decide;decide;decide;decide;decide;decide;deci");
+        return board;
     }
 
     static int feed(PetitionBoard board, String text) {
@@ -53,6 +124,15 @@ final class Boards {
         return board.execute();
     }
 
+    /** The answer of the last undo, or nothing for none. */
+    static String undo(PetitionBoard board, int times) {
+        String answer = "";
+        for (int i = 0; i < times; i++) {
+            answer = Check.answer(() -> board.undo());
+        }
+        return answer;
+    }
+
     /** Reads the output line until its end. */
     static String line(PetitionBoard board) {
         StringBuilder line = new StringBuilder();
@@ -66,31 +146,57 @@ final class Boards {
         return line.toString();
     }
 
+    /** What the buffer holds, as far as its length and the fault behind one more sign tell it; empties it. */
+    static String text(PetitionBoard board) {
+        String length = Check.answer(() -> board.feed('x'));
+        String answer = Check.answer(() -> board.execute());
+        return length + " " + answer + " " + Check.answer(() -> board.faultPosition());
+    }
+
+    static String denial(PetitionBoard board) {
+        return Check.answer(() -> board.denial()) + " " + Check.answer(() -> board.denialDetail()) + " "
+                + Check.answer(() -> board.denialCause()) + " " + Check.answer(() -> board.denialCauseDetail());
+    }
+
     /** Everything that changes can change, as far as the questions tell it; replaces the output line. */
     static String look(PetitionBoard board) {
-        StringBuilder look = new StringBuilder("stones");
-        for (int i = 0; i < board.stoneCount(); i++) {
+        return lookAtTheRest(board) + lookAtQueue(board);
+    }
+
+    /** Replaces the output line. */
+    static String lookAtQueue(PetitionBoard board) {
+        StringBuilder look = new StringBuilder(" queue");
+        int pending = board.pendingCount();
+        for (int i = 0; i < pending; i++) {
+            int petition = board.petitionAt(i);
+            board.writePetition(petition);
+            look.append(' ').append(board.positionOf(petition)).append(line(board));
+        }
+        return look.toString();
+    }
+
+    static String lookAtTheRest(PetitionBoard board) {
+        StringBuilder look = new StringBuilder(" stones");
+        int stones = board.stoneCount();
+        for (int i = 0; i < stones; i++) {
             look.append(' ').append(board.cellOf(i)).append('*').append(board.weightOf(i));
         }
         look.append(" officers");
-        for (int i = 0; i < board.officerCount(); i++) {
+        int officers = board.officerCount();
+        for (int i = 0; i < officers; i++) {
             look.append(' ').append(board.rankOf(i)).append('*').append(board.petitionsOf(i));
         }
-        look.append(" queue");
-        for (int i = 0; i < board.pendingCount(); i++) {
-            board.writePetition(board.petitionAt(i));
-            look.append(' ').append(line(board));
-        }
         look.append(" rulings");
-        for (int i = 0; i < board.rulingCount(); i++) {
+        int rulings = board.rulingCount();
+        for (int i = 0; i < rulings; i++) {
             look.append(' ').append(board.isGranted(i)).append(board.isCarriedOut(i)).append(board.depth(i));
-            for (int j = 0; j < board.citationCount(i); j++) {
+            int citations = board.citationCount(i);
+            for (int j = 0; j < citations; j++) {
                 look.append('^').append(board.citation(i, j));
             }
         }
-        look.append(" counts ").append(board.quorum()).append(' ').append(board.filedCount()).append(' ')
+        return look.append(" counts ").append(board.quorum()).append(' ').append(board.filedCount()).append(' ')
                 .append(board.vetoes()).append(' ').append(board.withdrawals()).append(' ')
-                .append(board.movedWeight());
-        return look.toString();
+                .append(board.movedWeight()).toString();
     }
 }

@@ -1,0 +1,209 @@
+/**
+ * A board that can be made again and again. A call is tried on a fresh one; then everything else that is to be
+ * seen must be as it is on a board without the call. Each view has a board of its own, since nothing is
+ * promised of a board after its 512th call.
+ */
+final class Scene {
+    interface Maker {
+        PetitionBoard make();
+    }
+
+    interface Call {
+        Object on(PetitionBoard board);
+    }
+
+    private static final String[] NAMES = {"the output line", "the text", "the fault position", "the denial",
+        "the undo count", "the snapshot's queue", "all else of the snapshot"};
+    private static final int LINE = 0;
+    private static final int TEXT = 1;
+    private static final int FAULT = 2;
+    private static final int DENIAL = 3;
+    private static final int UNDO_COUNT = 4;
+    private static final int SNAPSHOT = 5;
+    // From here on, the queue and all else after 0 undos, then both after 1 undo, and so on.
+    private static final int PAST = 7;
+    private static final int MOST_UNDOS = 9;
+    private static final int VIEWS = PAST + 2 * (MOST_UNDOS + 1);
+
+    private final Maker maker;
+    private String[] untouched;
+
+    Scene(Maker maker) {
+        this.maker = maker;
+    }
+
+    /** The same board after some more calls. */
+    Scene after(Call... calls) {
+        return new Scene(() -> {
+            PetitionBoard board = maker.make();
+            for (Call call : calls) {
+                Check.answer(() -> call.on(board));
+            }
+            return board;
+        });
+    }
+
+    PetitionBoard make() {
+        return maker.make();
+    }
+
+    void outside(String what, Call call) {
+        keeps(what, "IndexOutOfBoundsException", untouched(), call);
+    }
+
+    void unfit(String what, Call call) {
+        keeps(what, "IllegalArgumentException", untouched(), call);
+    }
+
+    void absent(String what, Call call) {
+        keeps(what, "NoSuchElementException", untouched(), call);
+    }
+
+    void illegalState(String what, Call call) {
+        keeps(what, "IllegalStateException", untouched(), call);
+    }
+
+    void arithmetic(String what, Call call) {
+        keeps(what, "ArithmeticException", untouched(), call);
+    }
+
+    void denied(String what, int number, int detail, Call call) {
+        String[] due = untouched().clone();
+        due[DENIAL] = number + " " + detail + " NoSuchElementException NoSuchElementException";
+        keeps(what, "UnsupportedOperationException", due, call);
+    }
+
+    /** Needs an empty text buffer. */
+    void textDenied(String text, int command, int cause, int causeDetail) {
+        String[] due = untouched().clone();
+        due[DENIAL] = "12 " + command + " " + cause + " " + causeDetail;
+        keeps("45 \"" + text + "\"", "UnsupportedOperationException", due, b -> Boards.execute(b, text));
+    }
+
+    /** Needs an empty text buffer. */
+    void textFault(String text, int position) {
+        String[] due = untouched().clone();
+        due[FAULT] = String.valueOf(position);
+        keeps("45 \"" + text + "\"", "IllegalArgumentException", due, b -> Boards.execute(b, text));
+    }
+
+    /** A question: nothing changes at all. */
+    void answers(String what, Object due, Call call) {
+        keeps(what, String.valueOf(due), untouched(), call);
+    }
+
+    /** A question, whatever it answers. */
+    void changesNothing(String what, Call call) {
+        PetitionBoard board = maker.make();
+        answers(what, Check.answer(() -> call.on(board)), call);
+    }
+
+    /** Nothing but the output line changes. */
+    void writes(String what, String line, Call call) {
+        String[] due = untouched().clone();
+        due[LINE] = line;
+        keeps(what, String.valueOf(line.length()), due, call);
+    }
+
+    /** One change: it can be undone, and what no change touches stays. */
+    void changes(String what, Object due, Call call) {
+        for (int view = LINE; view <= DENIAL; view++) {
+            compare(what, view, call, String.valueOf(due), untouched()[view]);
+        }
+        int count = Math.min(8, Integer.parseInt(untouched()[UNDO_COUNT]) + 1);
+        compare(what, UNDO_COUNT, call, String.valueOf(due), String.valueOf(count));
+        compare(what, SNAPSHOT, call, String.valueOf(due), untouched()[SNAPSHOT]);
+        compare(what, SNAPSHOT + 1, call, String.valueOf(due), untouched()[SNAPSHOT + 1]);
+        String changed = see(what, PAST, call, String.valueOf(due)) + see(what, PAST + 1, call, String.valueOf(due));
+        Check.is(what + " is a change", changed.equals(untouched()[PAST] + untouched()[PAST + 1]), false);
+        for (int undos = 0; undos < count; undos++) {
+            int left = count - 1 - undos;
+            comparePast(what, undos, left, call, String.valueOf(due));
+        }
+    }
+
+    /** Two calls change the board in the same way, whatever they answer. */
+    void alike(String what, Call call, Call other) {
+        for (int part = 0; part < 2; part++) {
+            PetitionBoard board = maker.make();
+            call.on(board);
+            PetitionBoard otherBoard = maker.make();
+            other.on(otherBoard);
+            Check.is(what, look(part, board), look(part, otherBoard));
+        }
+    }
+
+    /** One undo more than without the call leads to the same. */
+    private void comparePast(String what, int undos, int left, Call call, String due) {
+        for (int part = 0; part < 2; part++) {
+            PetitionBoard board = maker.make();
+            Check.is(what, Check.answer(() -> call.on(board)), due);
+            String answer = Boards.undo(board, undos + 1);
+            Check.is(what + ", undo " + (undos + 1) + " answers", answer, String.valueOf(left));
+            Check.is(what + ", undone " + (undos + 1) + " times", look(part, board), look(part, undone(undos)));
+        }
+    }
+
+    private PetitionBoard undone(int times) {
+        PetitionBoard board = maker.make();
+        Boards.undo(board, times);
+        return board;
+    }
+
+    private void keeps(String what, String due, String[] dueViews, Call call) {
+        for (int view = 0; view < VIEWS; view++) {
+            compare(what, view, call, due, dueViews[view]);
+        }
+    }
+
+    private void compare(String what, int view, Call call, String due, String dueView) {
+        String name = view < PAST ? NAMES[view] : "what is left after " + (view - PAST) / 2 + " undos";
+        Check.is(what + ", then " + name, see(what, view, call, due), dueView);
+    }
+
+    private String see(String what, int view, Call call, String due) {
+        PetitionBoard board = maker.make();
+        Check.is(what, Check.answer(() -> call.on(board)), due);
+        return view(view, board);
+    }
+
+    private String[] untouched() {
+        if (untouched == null) {
+            untouched = new String[VIEWS];
+            for (int view = 0; view < VIEWS; view++) {
+                untouched[view] = view(view, maker.make());
+            }
+        }
+        return untouched;
+    }
+
+    private static String view(int view, PetitionBoard board) {
+        switch (view) {
+            case LINE:
+                return Boards.line(board);
+            case TEXT:
+                return Boards.text(board);
+            case FAULT:
+                return Check.answer(() -> board.faultPosition());
+            case DENIAL:
+                return Boards.denial(board);
+            case UNDO_COUNT:
+                return String.valueOf(board.undoCount());
+            case SNAPSHOT:
+            case SNAPSHOT + 1:
+                return snapshot(view - SNAPSHOT, board);
+            default:
+                return Boards.undo(board, (view - PAST) / 2) + look((view - PAST) % 2, board);
+        }
+    }
+
+    private static String snapshot(int part, PetitionBoard board) {
+        String answer = Check.answer(() -> board.restoreSnapshot());
+        // Without a snapshot the board stays as it is, which tells nothing of one.
+        return answer.endsWith("Exception") ? answer : answer + look(part, board);
+    }
+
+    private static String look(int part, PetitionBoard board) {
+        return part == 0 ? Boards.lookAtQueue(board) : Boards.lookAtTheRest(board);
+    }
+}
