@@ -1,3 +1,6 @@
+import java.util.ArrayList;
+import java.util.List;
+
 /** Boards for the tests, and what is to be seen on one. */
 final class Boards {
     private Boards() {
@@ -111,6 +114,52 @@ final class Boards {
         return board;
     }
 
+    /** The petitions 9, 6, 4, 5 and 3 are pending, in this order, each with other votes and citations. */
+    static PetitionBoard varied() {
+        PetitionBoard board = addStones(withOfficers(5, 3, 7, 5, 9), 9);
+        rule(board, true);
+        rule(board, false, 0);
+        board.file(0, 1, 2, 9);
+        cast(board, 2, ".++");
+        board.cite(2, 1);
+        board.cite(2, 0);
+        board.decide();
+        board.file(1, 3, 20, 4);
+        board.file(0, 4, 21, 4);
+        board.file(3, 5, 22, 4);
+        board.file(2, 6, 5, 0);
+        board.withdraw(board.file(4, 7, 24, 3));
+        board.veto(4, board.file(1, 7, 23, 3));
+        board.file(4, 7, 23, 9);
+        cast(board, 3, "+.-+-");
+        cast(board, 4, ".-+-.");
+        cast(board, 5, "---.+");
+        cast(board, 6, "++.+.");
+        cast(board, 9, "-+-..");
+        board.cite(3, 2);
+        board.cite(4, 1);
+        board.cite(4, 0);
+        execute(board, "cite 5 0;cite 5 1;cite 5 2;cite 9 1;quorum 3");
+        return board;
+    }
+
+    /** A sign for each officer: a vote for or against the petition, or none. */
+    static void cast(PetitionBoard board, int petition, String votes) {
+        for (int officer = 0; officer < votes.length(); officer++) {
+            if (votes.charAt(officer) != '.') {
+                board.vote(officer, petition, votes.charAt(officer) == '+');
+            }
+        }
+    }
+
+    /** Sets the quorum, unless it is the present one. */
+    static PetitionBoard withQuorum(PetitionBoard board, int quorum) {
+        if (board.quorum() != quorum) {
+            board.setQuorum(quorum);
+        }
+        return board;
+    }
+
     static int feed(PetitionBoard board, String text) {
         int length = 0;
         for (int i = 0; i < text.length(); i++) {
@@ -198,5 +247,75 @@ final class Boards {
         return look.append(" counts ").append(board.quorum()).append(' ').append(board.filedCount()).append(' ')
                 .append(board.vetoes()).append(' ').append(board.withdrawals()).append(' ')
                 .append(board.movedWeight()).toString();
+    }
+
+    /** What follows from the rest, but is asked for by questions of its own. */
+    static String lookAtWhatFollows(PetitionBoard board) {
+        StringBuilder look = new StringBuilder(" cells ");
+        for (int cell = 0; cell < 25; cell++) {
+            int each = cell;
+            look.append(Check.answer(() -> board.stoneIn(each)).replace("NoSuchElementException", "."));
+        }
+        look.append(" petitions ").append(Check.answer(() -> board.meanVotes()));
+        int pending = board.pendingCount();
+        for (int i = 0; i < pending; i++) {
+            int petition = board.petitionAt(i);
+            look.append(' ').append(board.stoneOf(petition)).append('>').append(board.targetOf(petition))
+                    .append('+').append(board.votesFor(petition)).append('-').append(board.votesAgainst(petition))
+                    .append(board.wouldBeGranted(petition));
+        }
+        look.append(" precedents ").append(Check.answer(() -> board.grantedShare()));
+        int rulings = board.rulingCount();
+        for (int i = 0; i < rulings; i++) {
+            look.append(' ').append(board.rulingByInfluence(i)).append(':').append(board.citedBy(i))
+                    .append(board.isBasedOn(i, 0) ? '+' : '-').append(board.isBasedOn(rulings - 1, i) ? '+' : '-')
+                    .append(board.influence(i)).append('=').append(board.influenceByMarking(i));
+        }
+        return look.toString();
+    }
+
+    /** Everything that changes can change, and what follows from it, a line each; replaces the output line. */
+    static List<String> lines(PetitionBoard board) {
+        List<String> lines = new ArrayList<>();
+        int stones = board.stoneCount();
+        for (int i = 0; i < stones; i++) {
+            lines.add("stone " + i + ": cell " + board.cellOf(i) + ", weight " + board.weightOf(i));
+        }
+        int officers = board.officerCount();
+        for (int i = 0; i < officers; i++) {
+            lines.add("officer " + i + ": rank " + board.rankOf(i) + ", petitions " + board.petitionsOf(i));
+        }
+        StringBuilder queue = new StringBuilder("queue");
+        int pending = board.pendingCount();
+        for (int i = 0; i < pending; i++) {
+            int petition = board.petitionAt(i);
+            queue.append(' ').append(petition);
+            board.writePetition(petition);
+            lines.add(line(board) + (board.wouldBeGranted(petition) ? " would be granted" : ""));
+        }
+        lines.add(queue.toString());
+        int rulings = board.rulingCount();
+        for (int i = 0; i < rulings; i++) {
+            lines.add("ruling " + i + ": " + (board.isGranted(i) ? "granted" : "not granted")
+                    + (board.isCarriedOut(i) ? ", carried out" : "") + ", cites" + citations(board, i)
+                    + ", cited by " + board.citedBy(i) + ", depth " + board.depth(i)
+                    + ", influence " + board.influence(i));
+        }
+        lines.add("quorum " + board.quorum());
+        lines.add("filed " + board.filedCount());
+        lines.add("vetoes " + board.vetoes());
+        lines.add("withdrawals " + board.withdrawals());
+        lines.add("moved weight " + board.movedWeight());
+        lines.add("mean votes " + Check.answer(() -> board.meanVotes()));
+        lines.add("granted share " + Check.answer(() -> board.grantedShare()));
+        return lines;
+    }
+
+    private static String citations(PetitionBoard board, int ruling) {
+        StringBuilder citations = new StringBuilder();
+        for (int i = 0; i < board.citationCount(ruling); i++) {
+            citations.append(' ').append(board.citation(ruling, i));
+        }
+        return citations.toString();
     }
 }

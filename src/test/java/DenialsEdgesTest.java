@@ -2,9 +2,9 @@
 public final class DenialsEdgesTest {
     private static final Scene EMPTY = new Scene(() -> new PetitionBoard());
     /** A busy board whose text buffer is empty. */
-    private static final Scene BUSY = new Scene(() -> Boards.busy()).after(b -> b.execute());
+    private static final Scene BUSY = new Scene(() -> Boards.busy()).afterRefused(b -> b.execute());
     /** A full board whose text buffer is empty. */
-    private static final Scene FULL = new Scene(() -> Boards.full()).after(b -> b.execute());
+    private static final Scene FULL = new Scene(() -> Boards.full()).afterRefused(b -> b.execute());
 
     public static void main(String[] args) {
         nothingDenied();
@@ -34,7 +34,7 @@ public final class DenialsEdgesTest {
     }
 
     private static void otherExceptionsAreNoDenials() {
-        Scene scene = EMPTY.after(b -> b.addStone(25, 1), b -> b.addStone(0, 0), b -> b.addOfficer(10),
+        Scene scene = EMPTY.afterRefused(b -> b.addStone(25, 1), b -> b.addStone(0, 0), b -> b.addOfficer(10),
                 b -> b.file(0, 0, 0, 0), b -> b.vote(0, 0, true), b -> b.cite(0, 0), b -> b.veto(0, 0),
                 b -> b.withdraw(0), b -> b.setQuorum(6), b -> b.execute(), b -> b.undo(), b -> b.restoreSnapshot(),
                 b -> b.meanVotes(), b -> b.cellOf(0), b -> b.stoneIn(0), b -> b.denial());
@@ -50,25 +50,25 @@ public final class DenialsEdgesTest {
 
     /** "Denial 1: a limit is reached; the detail is the limit." */
     private static void eachLimit() {
-        is("10 stones", FULL.after(b -> b.addStone(22, 1)), 1, 10);
-        is("6 officers", FULL.after(b -> b.addOfficer(1)), 1, 6);
-        is("8 petitions", FULL.after(b -> b.file(0, 8, 22, 0)), 1, 8);
-        is("3 citations", FULL.after(b -> b.cite(23, 1)), 1, 3);
-        is("16 rulings", FULL.after(b -> b.decide()), 1, 16);
+        is("10 stones", FULL.afterRefused(b -> b.addStone(22, 1)), 1, 10);
+        is("6 officers", FULL.afterRefused(b -> b.addOfficer(1)), 1, 6);
+        is("8 petitions", FULL.afterRefused(b -> b.file(0, 8, 22, 0)), 1, 8);
+        is("3 citations", FULL.afterRefused(b -> b.cite(23, 1)), 1, 3);
+        is("16 rulings", FULL.afterRefused(b -> b.decide()), 1, 16);
     }
 
     private static void eachReason() {
-        is("an occupied cell", BUSY.after(b -> b.addStone(3, 1)), 2, 3);
-        is("a stone that is asked for", BUSY.after(b -> b.file(0, 3, 10, 0)), 3, 9);
-        is("a stone that lies there", BUSY.after(b -> b.file(0, 4, 4, 0)), 4, 4);
-        is("a vote for it", BUSY.after(b -> b.vote(1, 7, false)), 5, 1);
-        is("a vote against it", BUSY.after(b -> b.vote(2, 7, true)), 5, 0);
-        is("the petitioner", BUSY.after(b -> b.vote(3, 9, true)), 6, 3);
-        is("a cited ruling", BUSY.after(b -> b.cite(7, 2)), 7, 2);
-        is("a rank that is too low", BUSY.after(b -> b.veto(1, 7)), 8, 5);
-        is("none pending", EMPTY.after(b -> b.decide()), 9, 0);
-        is("too few votes", BUSY.after(b -> b.withdraw(7), b -> b.decide()), 10, 0);
-        is("the present value", BUSY.after(b -> b.setQuorum(2)), 11, 2);
+        is("an occupied cell", BUSY.afterRefused(b -> b.addStone(3, 1)), 2, 3);
+        is("a stone that is asked for", BUSY.afterRefused(b -> b.file(0, 3, 10, 0)), 3, 9);
+        is("a stone that lies there", BUSY.afterRefused(b -> b.file(0, 4, 4, 0)), 4, 4);
+        is("a vote for it", BUSY.afterRefused(b -> b.vote(1, 7, false)), 5, 1);
+        is("a vote against it", BUSY.afterRefused(b -> b.vote(2, 7, true)), 5, 0);
+        is("the petitioner", BUSY.afterRefused(b -> b.vote(3, 9, true)), 6, 3);
+        is("a cited ruling", BUSY.afterRefused(b -> b.cite(7, 2)), 7, 2);
+        is("a rank that is too low", BUSY.afterRefused(b -> b.veto(1, 7)), 8, 5);
+        is("none pending", EMPTY.afterRefused(b -> b.decide()), 9, 0);
+        is("too few votes", BUSY.after(b -> b.withdraw(7)).afterRefused(b -> b.decide()), 10, 0);
+        is("the present value", BUSY.afterRefused(b -> b.setQuorum(2)), 11, 2);
     }
 
     /** "Denial 12 .. Only denial 12 has a cause: the denial of the failed command with its detail". */
@@ -121,34 +121,36 @@ public final class DenialsEdgesTest {
 
     /** 52, 53: ".. or the latest denial has no cause"; a cause goes with its denial. */
     private static void causeOfTheLatest() {
-        Scene first = EMPTY.after(b -> Boards.execute(b, "quorum 2"));
+        Scene first = EMPTY.afterRefused(b -> Boards.execute(b, "quorum 2"));
         caused("the first command", first, 0, 11, 2);
-        Scene second = first.after(b -> Boards.execute(b, "quorum 3;withdraw 0"));
+        Scene second = first.afterRefused(b -> Boards.execute(b, "quorum 3;withdraw 0"));
         caused("the second command", second, 1, 13, 0);
-        Scene none = second.after(b -> b.decide());
+        Scene none = second.afterRefused(b -> b.decide());
         is("a denial without a cause", none, 9, 0);
-        caused("a cause again", none.after(b -> Boards.execute(b, "decide")), 0, 9, 0);
-        caused("the same denial with another cause", first.after(b -> Boards.execute(b, "decide")), 0, 9, 0);
-        Scene present = none.after(b -> b.setQuorum(2));
+        caused("a cause again", none.afterRefused(b -> Boards.execute(b, "decide")), 0, 9, 0);
+        caused("the same denial with another cause", first.afterRefused(b -> Boards.execute(b, "decide")), 0, 9, 0);
+        Scene present = none.afterRefused(b -> b.setQuorum(2));
         is("another reason", present, 11, 2);
-        is("the same reason with another detail", present.after(b -> b.setQuorum(3), b -> b.setQuorum(3)), 11, 3);
+        Scene another = present.after(b -> b.setQuorum(3)).afterRefused(b -> b.setQuorum(3));
+        is("the same reason with another detail", another, 11, 3);
     }
 
     /** "The number, the detail and the cause of the latest denial are kept until the next denial." */
     private static void keptUntilTheNext() {
-        Scene caused = new Scene(() -> Boards.ready(3, 3)).after(b -> Boards.execute(b, "quorum 4;stone 1 1"));
-        Scene plain = caused.after(b -> b.addStone(2, 1));
+        Scene caused = new Scene(() -> Boards.ready(3, 3)).afterRefused(b -> Boards.execute(b, "quorum 4;stone 1 1"));
+        Scene plain = caused.afterRefused(b -> b.addStone(2, 1));
         Scene.Call[] others = {b -> b.addOfficer(1), b -> b.undo(), b -> b.saveSnapshot(), b -> b.restoreSnapshot(),
             b -> b.file(0, 0, 20, 0), b -> b.writePetition(0), b -> b.writeRow(0), b -> b.feed('x'),
             b -> b.execute(), b -> Boards.execute(b, "quorum 5;quorum 4"), b -> b.addStone(25, 1),
             b -> b.addStone(9, 0), b -> b.withdraw(9), b -> b.cite(0, 0), b -> b.veto(9, 0), b -> b.setQuorum(0),
             b -> b.wouldBeGranted(0), b -> b.grantedShare(), b -> b.denial(), b -> b.denialCause()};
         for (int i = 0; i < others.length; i++) {
-            caused = caused.after(others[i]);
+            Scene.Call other = others[i];
+            caused = caused.after(b -> Check.answer(() -> other.on(b)));
             caused("kept over call " + i, caused, 1, 2, 1);
-            plain = plain.after(others[i]);
+            plain = plain.after(b -> Check.answer(() -> other.on(b)));
             is("kept over call " + i, plain, 2, 2);
         }
-        is("the next denial", caused.after(b -> b.vote(0, 0, true)), 6, 0);
+        is("the next denial", caused.afterRefused(b -> b.vote(0, 0, true)), 6, 0);
     }
 }

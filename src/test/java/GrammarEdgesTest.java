@@ -7,6 +7,11 @@ public final class GrammarEdgesTest {
         "file 0 1 23 4", "yes 1 2", "yes 1 23", "no 1 2", "no 1 23", "cite 1 2", "cite 12 3", "cite 1 23",
         "cite 12 34", "veto 1 2", "veto 1 23", "withdraw 1", "withdraw 12", "decide"};
 
+    /** Characters that stand in no text: controls, signs, capitals, and digits and spaces of other scripts. */
+    private static final int[] WRONG = {0, 8, 9, 10, 11, 12, 13, 31, '!', '+', ',', '-', '.', '/', ':', '<', '?',
+        'D', 'N', 'Z', '_', '|', 127, 133, 160, 0xB2, 0x37E, 0x661, 0x669, 0x966, 0x2002, 0x2003, 0x2028, 0x202F,
+        0x3000, 0xFF10, 0xFF19, 0xFF1B, 0xFEFF, 0xFFFF};
+
     public static void main(String[] args) {
         whatMatches();
         whatEndsTooEarly();
@@ -74,7 +79,10 @@ public final class GrammarEdgesTest {
         for (String command : COMMANDS) {
             for (int i = 0; i < command.length(); i++) {
                 char right = command.charAt(i);
-                for (int wrong : new int[] {'~', 0, 9, '/', ':', '-', 'D', 'N', right + 256, right + 0x8000}) {
+                for (int wrong : WRONG) {
+                    fault(command.substring(0, i) + (char) wrong + command.substring(i + 1), i);
+                }
+                for (int wrong : new int[] {'~', right + 128, right + 256, right + 0x8000}) {
                     fault(command.substring(0, i) + (char) wrong + command.substring(i + 1), i);
                     fault("decide;" + command.substring(0, i) + (char) wrong, 7 + i);
                 }
@@ -94,6 +102,9 @@ public final class GrammarEdgesTest {
             for (char wrong : new char[] {' ', '~', 0, ':', ',', 'd'}) {
                 fault(command + wrong, length);
                 fault(command + wrong + "decide", length);
+            }
+            for (int wrong : WRONG) {
+                fault(command + (char) wrong + "decide", length);
             }
             fault(command + " ;decide", length);
             fault(command + ";;decide", length + 1);

@@ -85,7 +85,7 @@ public final class LinesEdgesTest {
             line = line + "^" + ruling;
             scene.writes("47 with ruling " + ruling, line, b -> b.writePetition(16));
         }
-        scene.after(b -> b.cite(16, 1)).writes("47 after a refused one", line, b -> b.writePetition(16));
+        scene.afterRefused(b -> b.cite(16, 1)).writes("47 after a refused one", line, b -> b.writePetition(16));
         scene.after(b -> b.undo()).writes("47 undone", "#16:0>20@0!0+0-0^9^0", b -> b.writePetition(16));
         FULL.writes("47 all votes", "#23:7>20@1!7+2-3^15^0^10", b -> b.writePetition(23));
         BUSY.writes("47 at a busy board", "#7:2>20@0!7+1-1^2^0", b -> b.writePetition(7));
@@ -159,8 +159,8 @@ public final class LinesEdgesTest {
         for (int index : Edges.beyond(0, -1)) {
             EMPTY.outside("49 index " + index + " of none", b -> b.lineCharacter(index));
         }
-        EMPTY.after(b -> b.writeRow(5)).outside("49 no row was written", b -> b.lineCharacter(0));
-        EMPTY.after(b -> b.writePetition(0)).outside("49 no petition was written", b -> b.lineCharacter(0));
+        EMPTY.afterRefused(b -> b.writeRow(5)).outside("49 no row was written", b -> b.lineCharacter(0));
+        EMPTY.afterRefused(b -> b.writePetition(0)).outside("49 no petition was written", b -> b.lineCharacter(0));
         EMPTY.after(b -> b.feed('x')).outside("49 the text is no line", b -> b.lineCharacter(0));
     }
 

@@ -128,7 +128,7 @@ public final class PetitionsEdgesTest {
         one.denied("11 for the same cell", 3, 0, b -> b.file(0, 9, 24, 0));
         one.denied("11 for another cell", 3, 0, b -> b.file(0, 9, 20, 9));
         one.denied("11 for its own cell", 3, 0, b -> b.file(5, 9, 9, 9));
-        one.after(b -> b.file(0, 9, 24, 0)).denied("11 after a refused call", 3, 0, b -> b.file(0, 9, 24, 0));
+        one.afterRefused(b -> b.file(0, 9, 24, 0)).denied("11 after a refused call", 3, 0, b -> b.file(0, 9, 24, 0));
         one.changes("11 another stone", 1, b -> b.file(0, 8, 24, 0));
     }
 
@@ -137,8 +137,8 @@ public final class PetitionsEdgesTest {
         Scene one = new Scene(() -> Boards.addStones(Boards.withOfficers(5, 6, 7), 2)).after(b -> b.file(0, 0, 24, 0));
         one.after(b -> b.withdraw(0)).changes("11 after a withdrawal", 1, b -> b.file(0, 0, 24, 0));
         one.after(b -> b.veto(1, 0)).changes("11 after a veto", 1, b -> b.file(0, 0, 24, 0));
-        one.after(b -> b.veto(0, 0)).denied("11 after a denied veto", 3, 0, b -> b.file(0, 0, 24, 0));
-        one.after(b -> b.decide()).denied("11 after a denied decision", 3, 0, b -> b.file(0, 0, 24, 0));
+        one.afterRefused(b -> b.veto(0, 0)).denied("11 after a denied veto", 3, 0, b -> b.file(0, 0, 24, 0));
+        one.afterRefused(b -> b.decide()).denied("11 after a denied decision", 3, 0, b -> b.file(0, 0, 24, 0));
         Scene refused = one.after(b -> b.vote(1, 0, false), b -> b.vote(2, 0, false), b -> b.decide());
         refused.changes("11 after a ruling that is not granted", 1, b -> b.file(0, 0, 24, 0));
         Scene granted = one.after(b -> b.vote(1, 0, true), b -> b.vote(2, 0, true), b -> b.decide());
@@ -165,12 +165,13 @@ public final class PetitionsEdgesTest {
         seven.changes("11 the eighth", 7, b -> b.file(5, 9, 20, 9));
         QUEUE.denied("11 the ninth", 1, 8, b -> b.file(0, 8, 20, 9));
         QUEUE.denied("11 the ninth of another officer", 1, 8, b -> b.file(5, 9, 0, 0));
-        Scene refused = QUEUE.after(b -> b.file(0, 8, 20, 9));
+        Scene refused = QUEUE.afterRefused(b -> b.file(0, 8, 20, 9));
         refused.denied("11 the ninth once more", 1, 8, b -> b.file(0, 8, 20, 9));
         refused.answers("11 eight stay eight", 8, b -> b.pendingCount());
         refused.after(b -> b.withdraw(3)).changes("11 room after a withdrawal", 8, b -> b.file(0, 8, 20, 9));
         refused.after(b -> b.undo()).changes("11 room after an undo", 7, b -> b.file(0, 8, 20, 9));
-        refused.after(b -> b.addOfficer(9)).denied("11 no room after another refusal", 1, 8, b -> b.file(0, 9, 20, 9));
+        refused.afterRefused(b -> b.addOfficer(9))
+                .denied("11 no room after another refusal", 1, 8, b -> b.file(0, 9, 20, 9));
         Scene decided = QUEUE.after(b -> b.vote(1, 0, false), b -> b.vote(2, 0, false), b -> b.decide());
         decided.changes("11 room after a decision", 8, b -> b.file(0, 8, 20, 9));
         decided.after(b -> b.file(0, 8, 20, 9)).denied("11 full again", 1, 8, b -> b.file(0, 9, 20, 9));
@@ -259,7 +260,7 @@ public final class PetitionsEdgesTest {
             scene.changes("12 vote " + officer, officer, b -> b.vote(officer, 7, isFor));
             scene = scene.after(b -> b.vote(officer, 7, isFor));
             scene.denied("12 refused after vote " + officer, 5, isFor ? 1 : 0, b -> b.vote(officer, 7, !isFor));
-            scene = scene.after(b -> b.vote(officer, 7, !isFor));
+            scene = scene.afterRefused(b -> b.vote(officer, 7, !isFor));
         }
         scene.answers("12 for", 2, b -> b.votesFor(7));
         scene.answers("12 against", 3, b -> b.votesAgainst(7));
@@ -274,7 +275,7 @@ public final class PetitionsEdgesTest {
             Scene own = READY.after(b -> b.file(officer, 3, 20, 9));
             own.denied("12 petitioner " + officer + " for", 6, officer, b -> b.vote(officer, 0, true));
             own.denied("12 petitioner " + officer + " against", 6, officer, b -> b.vote(officer, 0, false));
-            own.after(b -> b.vote(officer, 0, true))
+            own.afterRefused(b -> b.vote(officer, 0, true))
                     .denied("12 petitioner " + officer + " once more", 6, officer, b -> b.vote(officer, 0, true));
         }
         FULL.denied("12 the petitioner, with all votes given", 6, 1, b -> b.vote(1, 23, true));
@@ -321,6 +322,10 @@ public final class PetitionsEdgesTest {
         }
         QUEUE.absent("13 no ruling at all", b -> b.cite(0, 0));
         BUSY.changes("13 a ruling that is not granted", 1, b -> b.cite(6, 1));
+        BUSY.after(b -> b.decide()).changes("13 a ruling that came after the petition", 1, b -> b.cite(9, 3));
+        Scene occupied = READY.after(b -> b.file(0, 0, 9, 0), b -> b.vote(1, 0, true), b -> b.vote(2, 0, true),
+                b -> b.decide(), b -> b.file(0, 1, 20, 0));
+        occupied.changes("13 a ruling that was not carried out", 1, b -> b.cite(1, 0));
     }
 
     /** 13: "denied: .. 1 (3 citations)"; returns the number of rulings that it cites afterwards. */
@@ -332,8 +337,8 @@ public final class PetitionsEdgesTest {
             scene = scene.after(b -> b.cite(16, rulings[cited - 1]));
         }
         scene.denied("13 the fourth", 1, 3, b -> b.cite(16, 1));
-        scene.after(b -> b.cite(16, 1)).denied("13 the fourth once more", 1, 3, b -> b.cite(16, 14));
-        scene.after(b -> b.cite(16, 1), b -> b.undo()).changes("13 another third", 3, b -> b.cite(16, 1));
+        scene.afterRefused(b -> b.cite(16, 1)).denied("13 the fourth once more", 1, 3, b -> b.cite(16, 14));
+        scene.afterRefused(b -> b.cite(16, 1)).after(b -> b.undo()).changes("13 another third", 3, b -> b.cite(16, 1));
         scene.changes("13 another petition has its own citations", 1, b -> b.cite(17, 7));
         scene.after(b -> b.withdraw(16), b -> b.file(0, 0, 20, 0))
                 .changes("13 the next petition for the stone, too", 1, b -> b.cite(24, 7));
@@ -344,7 +349,7 @@ public final class PetitionsEdgesTest {
         for (int ruling : new int[] {0, 1, 15}) {
             Scene cited = FULL.after(b -> b.cite(16, ruling));
             cited.denied("13 ruling " + ruling + " is cited", 7, ruling, b -> b.cite(16, ruling));
-            cited.after(b -> b.cite(16, ruling))
+            cited.afterRefused(b -> b.cite(16, ruling))
                     .denied("13 ruling " + ruling + " once more", 7, ruling, b -> b.cite(16, ruling));
             cited.after(b -> b.undo()).changes("13 ruling " + ruling + " undone", 1, b -> b.cite(16, ruling));
             cited.changes("13 after ruling " + ruling, 2, b -> b.cite(16, 9));
@@ -376,7 +381,10 @@ public final class PetitionsEdgesTest {
             }
         }
         BUSY.denied("14 a rank that is too low", 8, 5, b -> b.veto(3, 7));
-        BUSY.after(b -> b.veto(3, 7)).denied("14 once more", 8, 5, b -> b.veto(0, 9));
+        BUSY.afterRefused(b -> b.veto(3, 7)).denied("14 once more", 8, 5, b -> b.veto(0, 9));
+        Scene later = BUSY.after(b -> b.addOfficer(6));
+        later.changes("14 an officer who came later", 2, b -> b.veto(5, 7));
+        later.after(b -> b.veto(5, 7), b -> b.veto(4, 9)).changes("14 the last of the queue", 0, b -> b.veto(5, 6));
     }
 
     /** 14: no such officer; no pending petition has this number. */
@@ -457,9 +465,9 @@ public final class PetitionsEdgesTest {
             READY.after(b -> Boards.filePetitions(b, petitions))
                     .answers("16 petitions " + petitions, petitions, b -> b.pendingCount());
         }
-        QUEUE.after(b -> b.file(0, 8, 20, 0)).answers("16 after the ninth", 8, b -> b.pendingCount());
+        QUEUE.afterRefused(b -> b.file(0, 8, 20, 0)).answers("16 after the ninth", 8, b -> b.pendingCount());
         QUEUE.after(b -> b.undo()).answers("16 after an undo", 7, b -> b.pendingCount());
         BUSY.answers("16 only the pending", 3, b -> b.pendingCount());
-        FULL.after(b -> b.decide()).answers("16 after a denied decision", 8, b -> b.pendingCount());
+        FULL.afterRefused(b -> b.decide()).answers("16 after a denied decision", 8, b -> b.pendingCount());
     }
 }

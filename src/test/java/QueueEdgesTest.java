@@ -11,6 +11,7 @@ public final class QueueEdgesTest {
         positionsOfPetitions();
         eachPairOfPetitions();
         fullQueueInEachDirection();
+        equalRanksAndUrgencies();
         queueAfterSomeHaveLeft();
         unknownNumbers();
         numbersThatAreNotPending();
@@ -34,7 +35,7 @@ public final class QueueEdgesTest {
             }
         }
         EMPTY.absent("17 the empty board", b -> b.petitionAt(0));
-        FULL.after(b -> b.file(0, 8, 22, 9)).absent("17 a refused petition", b -> b.petitionAt(8));
+        FULL.afterRefused(b -> b.file(0, 8, 22, 9)).absent("17 a refused petition", b -> b.petitionAt(8));
         FULL.after(b -> b.undo(), b -> b.withdraw(16)).absent("17 the queue is shorter", b -> b.petitionAt(7));
     }
 
@@ -57,17 +58,20 @@ public final class QueueEdgesTest {
                 for (int urgency : new int[] {0, 1, 8, 9}) {
                     for (int otherUrgency : new int[] {0, 1, 8, 9}) {
                         boolean isFirst = rank > otherRank || rank == otherRank && urgency >= otherUrgency;
-                        pair(rank, urgency, otherRank, otherUrgency, isFirst ? 0 : 1);
+                        pair(rank, urgency, otherRank, otherUrgency, isFirst ? 0 : 1, 0);
+                        pair(rank, urgency, otherRank, otherUrgency, isFirst ? 0 : 1, 1);
                     }
                 }
             }
         }
     }
 
-    private static void pair(int rank, int urgency, int otherRank, int otherUrgency, int first) {
-        PetitionBoard board = Boards.addStones(Boards.withOfficers(rank, otherRank), 2);
-        board.file(0, 0, 20, urgency);
-        board.file(1, 1, 20, otherUrgency);
+    /** The first petition has the officer, the stone and the cell with the index, the second one the others. */
+    private static void pair(int rank, int urgency, int otherRank, int otherUrgency, int first, int index) {
+        int[] ranks = index == 0 ? new int[] {rank, otherRank} : new int[] {otherRank, rank};
+        PetitionBoard board = Boards.addStones(Boards.withOfficers(ranks), 2);
+        board.file(index, index, 20 + index, urgency);
+        board.file(1 - index, 1 - index, 21 - index, otherUrgency);
         String what = rank + "!" + urgency + " and " + otherRank + "!" + otherUrgency;
         Check.is("17 first of " + what, board.petitionAt(0), first);
         Check.is("17 last of " + what, board.petitionAt(1), 1 - first);
@@ -86,11 +90,35 @@ public final class QueueEdgesTest {
             for (int i = 0; i < 8; i++) {
                 board.file(0, i, 20, urgencies[run][i]);
             }
-            for (int i = 0; i < 8; i++) {
-                Check.is("17 queue " + run + ", position " + i, board.petitionAt(i), due[run][i]);
-                Check.is("18 queue " + run + ", petition " + due[run][i], board.positionOf(due[run][i]), i);
+            queue("queue " + run, board, due[run]);
+        }
+    }
+
+    private static void queue(String what, PetitionBoard board, int... due) {
+        for (int i = 0; i < due.length; i++) {
+            Check.is("17 " + what + ", position " + i, board.petitionAt(i), due[i]);
+            Check.is("18 " + what + ", petition " + due[i], board.positionOf(due[i]), i);
+        }
+    }
+
+    /** ".. then the one with the smaller number", though all else of the petitions comes the other way round. */
+    private static void equalRanksAndUrgencies() {
+        PetitionBoard board = Boards.withRulings(3);
+        for (int i = 0; i < 8; i++) {
+            board.file((14 - i) % 6, 9 - i, 21 - i, 5);
+        }
+        queue("equal petitions", board, 3, 4, 5, 6, 7, 8, 9, 10);
+        for (int i = 1; i < 8; i++) {
+            for (int officer = 0; officer < Math.min(i, 6); officer++) {
+                if (officer != (14 - i) % 6) {
+                    board.vote(officer, 3 + i, true);
+                }
+            }
+            for (int ruling = 0; ruling < Math.min(i, 3); ruling++) {
+                board.cite(3 + i, ruling);
             }
         }
+        queue("equal petitions with votes and citations", board, 3, 4, 5, 6, 7, 8, 9, 10);
     }
 
     /** Those that come later move up; the next petition finds its place among them. */
@@ -171,8 +199,8 @@ public final class QueueEdgesTest {
         }
         FULL.answers("21 all have voted", 2, b -> b.votesFor(23));
         FULL.answers("22 all have voted", 3, b -> b.votesAgainst(23));
-        FULL.after(b -> b.vote(5, 23, true)).answers("21 after a refused vote", 2, b -> b.votesFor(23));
-        FULL.after(b -> b.vote(5, 23, false)).answers("22 after a refused vote", 3, b -> b.votesAgainst(23));
+        FULL.afterRefused(b -> b.vote(5, 23, true)).answers("21 after a refused vote", 2, b -> b.votesFor(23));
+        FULL.afterRefused(b -> b.vote(5, 23, false)).answers("22 after a refused vote", 3, b -> b.votesAgainst(23));
     }
 
     /**
@@ -236,8 +264,11 @@ public final class QueueEdgesTest {
         one.answers("23 the first of the queue, no vote", false, b -> b.wouldBeGranted(0));
         one.after(b -> b.setQuorum(5)).answers("23 at the greatest quorum", true, b -> b.wouldBeGranted(7));
         one.after(b -> b.setQuorum(1)).answers("23 at the least quorum", true, b -> b.wouldBeGranted(7));
-        one.after(b -> b.addStone(20, 1)).answers("23 for an occupied cell", true, b -> b.wouldBeGranted(7));
         FULL.after(b -> b.vote(0, 17, true)).answers("23 with sixteen rulings", true, b -> b.wouldBeGranted(17));
         one.after(b -> b.undo()).answers("23 the vote undone", false, b -> b.wouldBeGranted(7));
+        Scene occupied = new Scene(() -> Boards.ready(6, 2)).after(b -> b.file(0, 0, 1, 0), b -> b.file(0, 1, 20, 0),
+                b -> b.vote(1, 0, true), b -> b.vote(1, 1, true), b -> b.addStone(20, 1));
+        occupied.answers("23 for an occupied cell", true, b -> b.wouldBeGranted(0));
+        occupied.answers("23 for a cell that was occupied later", true, b -> b.wouldBeGranted(1));
     }
 }

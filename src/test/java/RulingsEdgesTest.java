@@ -14,6 +14,7 @@ public final class RulingsEdgesTest {
         quorum();
         decideNonePending();
         decideQuorum();
+        decideFewOfficers();
         decideBothKindsOfVotes();
         decideLimit();
         decideOrder();
@@ -33,7 +34,7 @@ public final class RulingsEdgesTest {
     /** 24: "the quorum, 1 to 5"; "Throws IllegalArgumentException if the quorum is out of range"; the one before. */
     private static void setQuorumRange() {
         for (int before : Edges.within(1, 5)) {
-            Scene scene = EMPTY.after(b -> b.setQuorum(before));
+            Scene scene = new Scene(() -> Boards.withQuorum(new PetitionBoard(), before));
             for (int quorum : Edges.within(1, 5)) {
                 if (quorum != before) {
                     scene.changes("24 quorum " + quorum + " after " + before, before, b -> b.setQuorum(quorum));
@@ -52,9 +53,9 @@ public final class RulingsEdgesTest {
     private static void setQuorumPresent() {
         EMPTY.denied("24 the first quorum", 11, 2, b -> b.setQuorum(2));
         for (int quorum : Edges.within(1, 5)) {
-            Scene scene = new Scene(() -> new PetitionBoard()).after(b -> b.setQuorum(quorum));
+            Scene scene = new Scene(() -> Boards.withQuorum(new PetitionBoard(), quorum));
             scene.denied("24 quorum " + quorum + " is the present one", 11, quorum, b -> b.setQuorum(quorum));
-            scene.after(b -> b.setQuorum(quorum))
+            scene.afterRefused(b -> b.setQuorum(quorum))
                     .denied("24 quorum " + quorum + " once more", 11, quorum, b -> b.setQuorum(quorum));
         }
         Scene undone = EMPTY.after(b -> b.setQuorum(5), b -> b.undo());
@@ -70,9 +71,9 @@ public final class RulingsEdgesTest {
     /** 26: "Returns the quorum", "initially 2". */
     private static void quorum() {
         EMPTY.answers("26 initially", 2, b -> b.quorum());
-        EMPTY.after(b -> b.setQuorum(6)).answers("26 after a quorum out of range", 2, b -> b.quorum());
-        EMPTY.after(b -> b.setQuorum(0)).answers("26 after a quorum out of range", 2, b -> b.quorum());
-        EMPTY.after(b -> b.setQuorum(2)).answers("26 after a denied quorum", 2, b -> b.quorum());
+        EMPTY.afterRefused(b -> b.setQuorum(6)).answers("26 after a quorum out of range", 2, b -> b.quorum());
+        EMPTY.afterRefused(b -> b.setQuorum(0)).answers("26 after a quorum out of range", 2, b -> b.quorum());
+        EMPTY.afterRefused(b -> b.setQuorum(2)).answers("26 after a denied quorum", 2, b -> b.quorum());
         EMPTY.after(b -> b.setQuorum(5), b -> b.undo()).answers("26 undone", 2, b -> b.quorum());
         EMPTY.after(b -> b.saveSnapshot(), b -> b.setQuorum(5), b -> b.restoreSnapshot())
                 .answers("26 restored", 2, b -> b.quorum());
@@ -91,18 +92,29 @@ public final class RulingsEdgesTest {
     /** "It needs at least as many votes as the quorum"; denial 10: "the detail is the number of votes". */
     private static void decideQuorum() {
         for (int quorum : Edges.within(1, 5)) {
-            Scene scene = new Scene(() -> Boards.filePetitions(Boards.ready(6, 2), 1))
-                    .after(b -> b.setQuorum(quorum));
+            Scene scene = new Scene(() -> Boards.withQuorum(Boards.filePetitions(Boards.ready(6, 2), 1), quorum));
             for (int votes : Edges.within(0, 5)) {
                 String what = "25 quorum " + quorum + ", votes " + votes;
                 if (votes < quorum) {
                     scene.denied(what, 10, votes, b -> b.decide());
-                    scene.after(b -> b.decide()).denied(what + ", once more", 10, votes, b -> b.decide());
+                    scene.afterRefused(b -> b.decide()).denied(what + ", once more", 10, votes, b -> b.decide());
                 } else {
                     scene.changes(what, 0, b -> b.decide());
                 }
                 scene = scene.after(b -> b.vote(votes + 1, 0, true));
             }
+        }
+    }
+
+    /** A quorum that the officers cannot reach is no smaller for that. */
+    private static void decideFewOfficers() {
+        for (int officers : Edges.within(1, 5)) {
+            Scene scene = new Scene(() -> Boards.withQuorum(Boards.ready(officers, 1), officers))
+                    .after(b -> b.file(0, 0, 20, 0));
+            for (int officer : Edges.within(1, officers - 1)) {
+                scene = scene.after(b -> b.vote(officer, 0, true));
+            }
+            scene.denied("25 quorum and officers " + officers, 10, officers - 1, b -> b.decide());
         }
     }
 
@@ -125,12 +137,12 @@ public final class RulingsEdgesTest {
                 b -> b.vote(1, 15, true), b -> b.vote(2, 15, true));
         fifteen.changes("25 the sixteenth", 15, b -> b.decide());
         SIXTEEN.denied("25 the seventeenth", 1, 16, b -> b.decide());
-        Scene refused = SIXTEEN.after(b -> b.decide());
+        Scene refused = SIXTEEN.afterRefused(b -> b.decide());
         refused.denied("25 the seventeenth once more", 1, 16, b -> b.decide());
         refused.answers("25 the petition is still pending", 0, b -> b.positionOf(16));
         refused.answers("25 its stone is not moved", 9, b -> b.cellOf(9));
         FULL.denied("25 the limit at a full board", 1, 16, b -> b.decide());
-        Scene room = fifteen.after(b -> b.decide(), b -> b.decide(), b -> b.undo());
+        Scene room = fifteen.after(b -> b.decide()).afterRefused(b -> b.decide()).after(b -> b.undo());
         room.changes("25 room after an undo", 15, b -> b.decide());
     }
 
@@ -179,6 +191,9 @@ public final class RulingsEdgesTest {
         decided.answers("25 granted", true, b -> b.isGranted(0));
         decided.answers("25 not carried out", false, b -> b.isCarriedOut(0));
         decided.answers("25 nothing was moved", 0, b -> b.movedWeight());
+        decided.answers("25 no longer pending", 0, b -> b.pendingCount());
+        decided.absent("25 no longer known", b -> b.stoneOf(0));
+        decided.changes("25 its stone can be asked for again", 1, b -> b.file(0, 0, 1, 9));
         Scene left = new Scene(() -> Boards.ready(3, 2)).after(b -> b.file(0, 1, 20, 9), b -> b.file(0, 0, 1, 0),
                 b -> b.vote(1, 0, true), b -> b.vote(2, 0, true), b -> b.vote(1, 1, true), b -> b.vote(2, 1, true),
                 b -> b.decide(), b -> b.decide());
@@ -207,7 +222,7 @@ public final class RulingsEdgesTest {
             new Scene(() -> Boards.withRulings(rulings))
                     .answers("27 rulings " + rulings, rulings, b -> b.rulingCount());
         }
-        SIXTEEN.after(b -> b.decide()).answers("27 after a refused decision", 16, b -> b.rulingCount());
+        SIXTEEN.afterRefused(b -> b.decide()).answers("27 after a refused decision", 16, b -> b.rulingCount());
         new Scene(() -> Boards.withRulings(16)).after(b -> b.undo())
                 .answers("27 after an undo", 15, b -> b.rulingCount());
         BUSY.after(b -> b.veto(4, 9)).answers("27 after a veto", 3, b -> b.rulingCount());

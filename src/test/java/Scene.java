@@ -13,17 +13,19 @@ final class Scene {
     }
 
     private static final String[] NAMES = {"the output line", "the text", "the fault position", "the denial",
-        "the undo count", "the snapshot's queue", "all else of the snapshot"};
+        "the undo count", "the snapshot's queue", "the rest of the snapshot", "what follows from the snapshot"};
     private static final int LINE = 0;
     private static final int TEXT = 1;
     private static final int FAULT = 2;
     private static final int DENIAL = 3;
     private static final int UNDO_COUNT = 4;
     private static final int SNAPSHOT = 5;
-    // From here on, the queue and all else after 0 undos, then both after 1 undo, and so on.
-    private static final int PAST = 7;
+    /** The looks of Boards: one look at all would take too many calls. */
+    private static final int PARTS = 3;
+    // From here on, the parts after 0 undos, then the parts after 1 undo, and so on.
+    private static final int PAST = SNAPSHOT + PARTS;
     private static final int MOST_UNDOS = 9;
-    private static final int VIEWS = PAST + 2 * (MOST_UNDOS + 1);
+    private static final int VIEWS = PAST + PARTS * (MOST_UNDOS + 1);
 
     private final Maker maker;
     private String[] untouched;
@@ -32,15 +34,34 @@ final class Scene {
         this.maker = maker;
     }
 
-    /** The same board after some more calls. */
+    /** The same board after some more calls, none of which may be refused. */
     Scene after(Call... calls) {
+        return then("met", calls);
+    }
+
+    /** The same board after some more calls, each of which must be refused. */
+    Scene afterRefused(Call... calls) {
+        return then("refused", calls);
+    }
+
+    private Scene then(String due, Call... calls) {
+        String place = new Throwable().getStackTrace()[2].toString();
         return new Scene(() -> {
             PetitionBoard board = maker.make();
-            for (Call call : calls) {
-                Check.answer(() -> call.on(board));
+            for (int i = 0; i < calls.length; i++) {
+                Check.is("call " + i + " on the way at " + place, fate(board, calls[i]), due);
             }
             return board;
         });
+    }
+
+    private static String fate(PetitionBoard board, Call call) {
+        try {
+            call.on(board);
+            return "met";
+        } catch (RuntimeException e) {
+            return "refused";
+        }
     }
 
     PetitionBoard make() {
@@ -112,8 +133,9 @@ final class Scene {
         }
         int count = Math.min(8, Integer.parseInt(untouched()[UNDO_COUNT]) + 1);
         compare(what, UNDO_COUNT, call, String.valueOf(due), String.valueOf(count));
-        compare(what, SNAPSHOT, call, String.valueOf(due), untouched()[SNAPSHOT]);
-        compare(what, SNAPSHOT + 1, call, String.valueOf(due), untouched()[SNAPSHOT + 1]);
+        for (int view = SNAPSHOT; view < PAST; view++) {
+            compare(what, view, call, String.valueOf(due), untouched()[view]);
+        }
         String changed = see(what, PAST, call, String.valueOf(due)) + see(what, PAST + 1, call, String.valueOf(due));
         Check.is(what + " is a change", changed.equals(untouched()[PAST] + untouched()[PAST + 1]), false);
         for (int undos = 0; undos < count; undos++) {
@@ -124,7 +146,7 @@ final class Scene {
 
     /** Two calls change the board in the same way, whatever they answer. */
     void alike(String what, Call call, Call other) {
-        for (int part = 0; part < 2; part++) {
+        for (int part = 0; part < PARTS; part++) {
             PetitionBoard board = maker.make();
             call.on(board);
             PetitionBoard otherBoard = maker.make();
@@ -135,7 +157,7 @@ final class Scene {
 
     /** One undo more than without the call leads to the same. */
     private void comparePast(String what, int undos, int left, Call call, String due) {
-        for (int part = 0; part < 2; part++) {
+        for (int part = 0; part < PARTS; part++) {
             PetitionBoard board = maker.make();
             Check.is(what, Check.answer(() -> call.on(board)), due);
             String answer = Boards.undo(board, undos + 1);
@@ -157,7 +179,7 @@ final class Scene {
     }
 
     private void compare(String what, int view, Call call, String due, String dueView) {
-        String name = view < PAST ? NAMES[view] : "what is left after " + (view - PAST) / 2 + " undos";
+        String name = view < PAST ? NAMES[view] : "what is left after " + (view - PAST) / PARTS + " undos";
         Check.is(what + ", then " + name, see(what, view, call, due), dueView);
     }
 
@@ -191,9 +213,10 @@ final class Scene {
                 return String.valueOf(board.undoCount());
             case SNAPSHOT:
             case SNAPSHOT + 1:
+            case SNAPSHOT + 2:
                 return snapshot(view - SNAPSHOT, board);
             default:
-                return Boards.undo(board, (view - PAST) / 2) + look((view - PAST) % 2, board);
+                return Boards.undo(board, (view - PAST) / PARTS) + look((view - PAST) % PARTS, board);
         }
     }
 
@@ -204,6 +227,9 @@ final class Scene {
     }
 
     private static String look(int part, PetitionBoard board) {
-        return part == 0 ? Boards.lookAtQueue(board) : Boards.lookAtTheRest(board);
+        if (part == 0) {
+            return Boards.lookAtQueue(board);
+        }
+        return part == 1 ? Boards.lookAtTheRest(board) : Boards.lookAtWhatFollows(board);
     }
 }

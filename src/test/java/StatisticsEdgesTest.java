@@ -24,9 +24,9 @@ public final class StatisticsEdgesTest {
     private static void filedCount() {
         EMPTY.answers("38 none", 0, b -> b.filedCount());
         QUEUE.answers("38 eight", 8, b -> b.filedCount());
-        QUEUE.after(b -> b.file(0, 8, 20, 0)).answers("38 the ninth was refused", 8, b -> b.filedCount());
-        QUEUE.after(b -> b.file(0, 8, 25, 0)).answers("38 a wrong cell", 8, b -> b.filedCount());
-        QUEUE.after(b -> b.file(0, 8, 20, 10)).answers("38 a wrong urgency", 8, b -> b.filedCount());
+        QUEUE.afterRefused(b -> b.file(0, 8, 20, 0)).answers("38 the ninth was refused", 8, b -> b.filedCount());
+        QUEUE.afterRefused(b -> b.file(0, 8, 25, 0)).answers("38 a wrong cell", 8, b -> b.filedCount());
+        QUEUE.afterRefused(b -> b.file(0, 8, 20, 10)).answers("38 a wrong urgency", 8, b -> b.filedCount());
         QUEUE.after(b -> b.undo()).answers("38 undone", 7, b -> b.filedCount());
         QUEUE.after(b -> b.withdraw(0)).answers("38 withdrawn ones count", 8, b -> b.filedCount());
         QUEUE.after(b -> b.withdraw(0), b -> b.file(0, 8, 20, 0)).answers("38 nine", 9, b -> b.filedCount());
@@ -72,10 +72,11 @@ public final class StatisticsEdgesTest {
         EMPTY.answers("39 none", 0, b -> b.vetoes());
         BUSY.answers("39 at a busy board", 1, b -> b.vetoes());
         BUSY.after(b -> b.veto(4, 9)).answers("39 two", 2, b -> b.vetoes());
-        BUSY.after(b -> b.veto(4, 9), b -> b.veto(4, 9)).answers("39 a petition twice", 2, b -> b.vetoes());
+        BUSY.after(b -> b.veto(4, 9)).afterRefused(b -> b.veto(4, 9))
+                .answers("39 a petition twice", 2, b -> b.vetoes());
         BUSY.after(b -> b.veto(4, 9), b -> b.undo()).answers("39 undone", 1, b -> b.vetoes());
-        BUSY.after(b -> b.veto(3, 9)).answers("39 denied", 1, b -> b.vetoes());
-        BUSY.after(b -> b.veto(5, 9)).answers("39 no such officer", 1, b -> b.vetoes());
+        BUSY.afterRefused(b -> b.veto(3, 9)).answers("39 denied", 1, b -> b.vetoes());
+        BUSY.afterRefused(b -> b.veto(5, 9)).answers("39 no such officer", 1, b -> b.vetoes());
         BUSY.after(b -> b.withdraw(9)).answers("39 a withdrawal is none", 1, b -> b.vetoes());
         BUSY.after(b -> b.veto(4, 9), b -> b.restoreSnapshot()).answers("39 restored", 0, b -> b.vetoes());
     }
@@ -85,9 +86,10 @@ public final class StatisticsEdgesTest {
         EMPTY.answers("40 none", 0, b -> b.withdrawals());
         BUSY.answers("40 at a busy board", 3, b -> b.withdrawals());
         BUSY.after(b -> b.withdraw(9)).answers("40 four", 4, b -> b.withdrawals());
-        BUSY.after(b -> b.withdraw(9), b -> b.withdraw(9)).answers("40 a petition twice", 4, b -> b.withdrawals());
+        BUSY.after(b -> b.withdraw(9)).afterRefused(b -> b.withdraw(9))
+                .answers("40 a petition twice", 4, b -> b.withdrawals());
         BUSY.after(b -> b.withdraw(9), b -> b.undo()).answers("40 undone", 3, b -> b.withdrawals());
-        BUSY.after(b -> b.withdraw(10)).answers("40 no such petition", 3, b -> b.withdrawals());
+        BUSY.afterRefused(b -> b.withdraw(10)).answers("40 no such petition", 3, b -> b.withdrawals());
         BUSY.after(b -> b.veto(4, 9)).answers("40 a veto is none", 3, b -> b.withdrawals());
         BUSY.after(b -> b.restoreSnapshot()).answers("40 restored", 0, b -> b.withdrawals());
     }
@@ -102,7 +104,8 @@ public final class StatisticsEdgesTest {
                 scene = scene.after(b -> Boards.rule(b, true));
                 scene.answers("41 moves " + moves, weight * moves, b -> b.movedWeight());
             }
-            scene.after(b -> Boards.rule(b, true)).answers("41 no seventeenth", weight * 16, b -> b.movedWeight());
+            scene.afterRefused(b -> Boards.rule(b, true))
+                    .answers("41 no seventeenth", weight * 16, b -> b.movedWeight());
             scene.after(b -> b.undo()).answers("41 undone", weight * 15, b -> b.movedWeight());
         }
         Scene two = new Scene(() -> Boards.ready(3, 9)).after(b -> Boards.rule(b, true), b -> b.file(0, 8, 20, 0),
@@ -161,7 +164,7 @@ public final class StatisticsEdgesTest {
                 double due = (double) votes / (double) petitions;
                 scene.answers("42 votes " + votes + " of " + petitions, due, b -> b.meanVotes());
             }
-            scene.after(b -> b.vote(5, petitions - 1, true))
+            scene.afterRefused(b -> b.vote(5, petitions - 1, true))
                     .answers("42 after a refused vote", 5.0 / petitions, b -> b.meanVotes());
         }
     }

@@ -137,7 +137,7 @@ public final class StonesAndOfficersEdgesTest {
         nine.changes("2 the tenth", 9, b -> b.addStone(24, 9));
         Scene ten = nine.after(b -> b.addStone(24, 9));
         ten.denied("2 the eleventh", 1, 10, b -> b.addStone(20, 9));
-        Scene refused = ten.after(b -> b.addStone(20, 9));
+        Scene refused = ten.afterRefused(b -> b.addStone(20, 9));
         refused.denied("2 the eleventh once more", 1, 10, b -> b.addStone(20, 9));
         refused.answers("2 there are ten", 10, b -> b.stoneCount());
         refused.absent("2 the refused one lies nowhere", b -> b.stoneIn(20));
@@ -165,7 +165,7 @@ public final class StonesAndOfficersEdgesTest {
         five.changes("3 the sixth", 5, b -> b.addOfficer(5));
         Scene six = five.after(b -> b.addOfficer(5));
         six.denied("3 the seventh", 1, 6, b -> b.addOfficer(1));
-        Scene refused = six.after(b -> b.addOfficer(1));
+        Scene refused = six.afterRefused(b -> b.addOfficer(1));
         refused.denied("3 the seventh once more", 1, 6, b -> b.addOfficer(9));
         refused.answers("3 there are six", 6, b -> b.officerCount());
         refused.after(b -> b.undo()).changes("3 the sixth again", 5, b -> b.addOfficer(9));
@@ -178,10 +178,10 @@ public final class StonesAndOfficersEdgesTest {
             new Scene(() -> Boards.ready(0, stones)).answers("4 stones " + stones, stones, b -> b.stoneCount());
         }
         BUSY.answers("4 at a busy board", 6, b -> b.stoneCount());
-        BUSY.after(b -> b.addStone(9, 10)).answers("4 after a refused stone", 6, b -> b.stoneCount());
+        BUSY.afterRefused(b -> b.addStone(9, 10)).answers("4 after a refused stone", 6, b -> b.stoneCount());
         BUSY.after(b -> b.addStone(9, 9)).answers("4 after one more", 7, b -> b.stoneCount());
         BUSY.after(b -> b.addStone(9, 9), b -> b.undo()).answers("4 after its undo", 6, b -> b.stoneCount());
-        FULL.after(b -> b.addStone(22, 1)).answers("4 after the eleventh", 10, b -> b.stoneCount());
+        FULL.afterRefused(b -> b.addStone(22, 1)).answers("4 after the eleventh", 10, b -> b.stoneCount());
     }
 
     /** 5, 6: "Throws IndexOutOfBoundsException if there is no such stone". */
@@ -237,10 +237,10 @@ public final class StonesAndOfficersEdgesTest {
             new Scene(() -> Boards.ready(officers, 0))
                     .answers("8 officers " + officers, officers, b -> b.officerCount());
         }
-        BUSY.after(b -> b.addOfficer(0)).answers("8 after a refused officer", 5, b -> b.officerCount());
+        BUSY.afterRefused(b -> b.addOfficer(0)).answers("8 after a refused officer", 5, b -> b.officerCount());
         BUSY.after(b -> b.addOfficer(1)).answers("8 after one more", 6, b -> b.officerCount());
         BUSY.after(b -> b.addOfficer(1), b -> b.undo()).answers("8 after its undo", 5, b -> b.officerCount());
-        FULL.after(b -> b.addOfficer(1)).answers("8 after the seventh", 6, b -> b.officerCount());
+        FULL.afterRefused(b -> b.addOfficer(1)).answers("8 after the seventh", 6, b -> b.officerCount());
     }
 
     /** 9, 10: "Throws IndexOutOfBoundsException if there is no such officer". */
@@ -272,7 +272,8 @@ public final class StonesAndOfficersEdgesTest {
         for (int officer : Edges.within(0, 5)) {
             FULL.answers("10 officer " + officer, officer < 2 ? 2 : 1, b -> b.petitionsOf(officer));
         }
-        Scene refused = new Scene(() -> Boards.filePetitions(Boards.ready(2, 10), 8)).after(b -> b.file(1, 8, 20, 0));
+        Scene refused = new Scene(() -> Boards.filePetitions(Boards.ready(2, 10), 8))
+                .afterRefused(b -> b.file(1, 8, 20, 0));
         refused.answers("10 the ninth was refused", 0, b -> b.petitionsOf(1));
         refused.answers("10 the eight stay", 8, b -> b.petitionsOf(0));
     }
@@ -281,7 +282,7 @@ public final class StonesAndOfficersEdgesTest {
         Scene two = new Scene(() -> Boards.filePetitions(Boards.addStones(Boards.withOfficers(5, 5, 6), 3), 2));
         two.after(b -> b.withdraw(1)).answers("10 after a withdrawal", 1, b -> b.petitionsOf(0));
         two.after(b -> b.veto(2, 0)).answers("10 after a veto", 1, b -> b.petitionsOf(0));
-        two.after(b -> b.veto(1, 0)).answers("10 after a denied veto", 2, b -> b.petitionsOf(0));
+        two.afterRefused(b -> b.veto(1, 0)).answers("10 after a denied veto", 2, b -> b.petitionsOf(0));
         two.after(b -> b.veto(2, 0)).answers("10 a veto does not make it the officer's", 0, b -> b.petitionsOf(2));
         Scene decided = two.after(b -> b.vote(1, 0, false), b -> b.vote(2, 0, false), b -> b.decide());
         decided.answers("10 after a decision", 1, b -> b.petitionsOf(0));

@@ -2,9 +2,9 @@
 public final class TextsEdgesTest {
     private static final Scene EMPTY = new Scene(() -> new PetitionBoard());
     /** A busy board whose text buffer is empty. */
-    private static final Scene BUSY = new Scene(() -> Boards.busy()).after(b -> b.execute());
+    private static final Scene BUSY = new Scene(() -> Boards.busy()).afterRefused(b -> b.execute());
     /** A full board whose text buffer is empty. */
-    private static final Scene FULL = new Scene(() -> Boards.full()).after(b -> b.execute());
+    private static final Scene FULL = new Scene(() -> Boards.full()).afterRefused(b -> b.execute());
     /** Sixty characters, which end too early. */
     private static final String SIXTY = "decide;decide;decide;decide;decide;decide;decide;decide;deci";
 
@@ -292,16 +292,17 @@ public final class TextsEdgesTest {
     private static void faultPosition() {
         EMPTY.absent("46 none", b -> b.faultPosition());
         EMPTY.after(b -> Boards.execute(b, "quorum 3")).absent("46 none by a match", b -> b.faultPosition());
-        EMPTY.after(b -> Boards.execute(b, "quorum 2")).absent("46 none by a denial", b -> b.faultPosition());
+        EMPTY.afterRefused(b -> Boards.execute(b, "quorum 2")).absent("46 none by a denial", b -> b.faultPosition());
         EMPTY.after(b -> Boards.feed(b, "x")).absent("46 none by a character", b -> b.faultPosition());
-        EMPTY.after(b -> b.execute()).answers("46 the least", 0, b -> b.faultPosition());
-        Scene greatest = EMPTY.after(b -> Boards.execute(b, SIXTY));
+        EMPTY.afterRefused(b -> b.execute()).answers("46 the least", 0, b -> b.faultPosition());
+        Scene greatest = EMPTY.afterRefused(b -> Boards.execute(b, SIXTY));
         greatest.answers("46 the greatest", 60, b -> b.faultPosition());
         greatest.after(b -> Boards.execute(b, "quorum 3")).answers("46 over a match", 60, b -> b.faultPosition());
-        greatest.after(b -> Boards.execute(b, "quorum 2")).answers("46 over a denial", 60, b -> b.faultPosition());
+        greatest.afterRefused(b -> Boards.execute(b, "quorum 2"))
+                .answers("46 over a denial", 60, b -> b.faultPosition());
         greatest.after(b -> Boards.feed(b, "x")).answers("46 over a character", 60, b -> b.faultPosition());
         greatest.after(b -> b.saveSnapshot(), b -> b.addOfficer(1), b -> b.undo(), b -> b.restoreSnapshot())
                 .answers("46 over undo and snapshots", 60, b -> b.faultPosition());
-        greatest.after(b -> b.execute()).answers("46 the last one", 0, b -> b.faultPosition());
+        greatest.afterRefused(b -> b.execute()).answers("46 the last one", 0, b -> b.faultPosition());
     }
 }

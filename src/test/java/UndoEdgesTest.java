@@ -26,6 +26,7 @@ public final class UndoEdgesTest {
         undoOfAForgottenOne();
         whatIsNoChange();
         eachKindOfChange();
+        textOfNoDifference();
         undoLeavesTheRest();
         numbersAreUndone();
         noSnapshot();
@@ -36,19 +37,22 @@ public final class UndoEdgesTest {
         restoreSnapshotEndsUndo();
         snapshotIsKept();
         snapshotLeavesTheRest();
+        everythingIsSaved();
+        ranksAreRestored();
         snapshotOfTheFullBoard();
         undoInAnotherLife();
         snapshotOfAnotherLife();
+        eachRulingOfAnotherLife();
         Check.end();
     }
 
     /** 54: "Throws IllegalStateException if there is none". */
     private static void nothingToUndo() {
         EMPTY.illegalState("54 a new board", b -> b.undo());
-        EMPTY.after(b -> b.undo()).illegalState("54 once more", b -> b.undo());
+        EMPTY.afterRefused(b -> b.undo()).illegalState("54 once more", b -> b.undo());
         EMPTY.after(b -> b.addOfficer(1), b -> b.undo()).illegalState("54 undone", b -> b.undo());
-        EMPTY.after(b -> b.addOfficer(0)).illegalState("54 after a refused call", b -> b.undo());
-        EMPTY.after(b -> b.setQuorum(2)).illegalState("54 after a denied call", b -> b.undo());
+        EMPTY.afterRefused(b -> b.addOfficer(0)).illegalState("54 after a refused call", b -> b.undo());
+        EMPTY.afterRefused(b -> b.setQuorum(2)).illegalState("54 after a denied call", b -> b.undo());
         BUSY.after(b -> Boards.undo(b, 8)).illegalState("54 after eight undos", b -> b.undo());
         FULL.after(b -> Boards.undo(b, 8)).illegalState("54 after eight undos of a full board", b -> b.undo());
         BUSY.after(b -> b.restoreSnapshot()).illegalState("54 after a snapshot", b -> b.undo());
@@ -103,7 +107,7 @@ public final class UndoEdgesTest {
         back.illegalState("54 the first of nine is forgotten", b -> b.undo());
         back.changes("54 a change after it", 0, b -> b.addStone(20, 2));
         // A refused call forgets nothing.
-        Scene refused = eight.after(b -> b.addStone(0, 1), b -> b.addOfficer(0), b -> b.addStone(25, 1));
+        Scene refused = eight.afterRefused(b -> b.addStone(0, 1), b -> b.addOfficer(0), b -> b.addStone(25, 1));
         refused.after(b -> Boards.undo(b, 8)).answers("54 after refused calls", 0, b -> b.officerCount());
     }
 
@@ -152,15 +156,15 @@ public final class UndoEdgesTest {
             BUSY.changesNothing("55 question " + i, calls[i]);
             EMPTY.changesNothing("55 question " + i, calls[i]);
         }
-        FULL.after(b -> b.execute()).answers("55 a fault", 8, b -> b.undoCount());
+        FULL.afterRefused(b -> b.execute()).answers("55 a fault", 8, b -> b.undoCount());
         FULL.after(b -> b.writeRow(0), b -> b.writePetition(16)).answers("55 lines", 8, b -> b.undoCount());
-        EMPTY.after(b -> b.feed('x'), b -> b.execute(), b -> b.saveSnapshot(), b -> b.writeRow(0))
+        EMPTY.after(b -> b.feed('x')).afterRefused(b -> b.execute()).after(b -> b.saveSnapshot(), b -> b.writeRow(0))
                 .answers("55 none of these is a change", 0, b -> b.undoCount());
     }
 
     /** "The calls of the methods to which commands correspond, and of execute, .. are the changes." */
     private static void eachKindOfChange() {
-        Scene clear = BUSY.after(b -> b.execute());
+        Scene clear = BUSY.afterRefused(b -> b.execute());
         for (Scene scene : new Scene[] {BUSY, clear}) {
             scene.changes("54 addStone", 6, b -> b.addStone(10, 9));
             scene.changes("54 addOfficer", 5, b -> b.addOfficer(1));
@@ -174,6 +178,17 @@ public final class UndoEdgesTest {
             scene.changes("54 decide", 3, b -> b.decide());
         }
         clear.changes("54 execute", 3, b -> Boards.execute(b, "withdraw 6;quorum 1;decide"));
+    }
+
+    /** The calls "of execute, that do not throw an exception are the changes": also one that leaves all as it was. */
+    private static void textOfNoDifference() {
+        Scene text = EMPTY.after(b -> Boards.execute(b, "quorum 3;quorum 2"));
+        text.answers("55 the quorum there and back", 1, b -> b.undoCount());
+        Check.is("54 the quorum there and back", text.make().undo(), 0);
+        Scene nine = new Scene(() -> changed(8)).after(b -> Boards.execute(b, "quorum 4;quorum 5;quorum 3"));
+        nine.after(b -> b.undo()).answers("54 all is as it was", 3, b -> b.quorum());
+        nine.after(b -> Boards.undo(b, 8)).answers("54 the first of nine is forgotten", changed(1).quorum(),
+                b -> b.quorum());
     }
 
     /** "The text buffer, the fault position, the output line and the latest denial are affected neither by undo" */
@@ -203,10 +218,10 @@ public final class UndoEdgesTest {
     /** 57: "Throws IllegalStateException if there is no snapshot"; then nothing is restored or forgotten. */
     private static void noSnapshot() {
         EMPTY.illegalState("57 a new board", b -> b.restoreSnapshot());
-        EMPTY.after(b -> b.restoreSnapshot()).illegalState("57 once more", b -> b.restoreSnapshot());
+        EMPTY.afterRefused(b -> b.restoreSnapshot()).illegalState("57 once more", b -> b.restoreSnapshot());
         Scene eight = new Scene(() -> Boards.ready(3, 5));
         eight.illegalState("57 with eight changes", b -> b.restoreSnapshot());
-        eight.after(b -> b.restoreSnapshot()).answers("57 nothing is forgotten", 8, b -> b.undoCount());
+        eight.afterRefused(b -> b.restoreSnapshot()).answers("57 nothing is forgotten", 8, b -> b.undoCount());
         EMPTY.after(b -> b.saveSnapshot()).answers("57 the empty snapshot", 0, b -> b.restoreSnapshot());
     }
 
@@ -346,6 +361,86 @@ public final class UndoEdgesTest {
         Check.is("57 the later text", later.feed('z'), 2);
     }
 
+    /** Each kind of change once, at the varied board. */
+    private static void changeAll(PetitionBoard board) {
+        board.addStone(10, 5);
+        board.addOfficer(6);
+        board.withdraw(3);
+        board.veto(4, 5);
+        board.cite(6, 1);
+        board.vote(4, 6, false);
+        board.vote(4, 4, true);
+        board.decide();
+        board.setQuorum(4);
+        board.decide();
+        board.file(1, 8, 20, 9);
+        board.file(5, 7, 12, 0);
+    }
+
+    /** And once more. */
+    private static void changeMore(PetitionBoard board) {
+        board.veto(4, board.file(3, 0, 3, 7));
+        board.setQuorum(3);
+        Boards.execute(board, "yes 0 11;no 1 11;no 2 11;decide;withdraw 10");
+        board.cite(4, 2);
+        board.decide();
+        board.file(4, 6, 5, 0);
+    }
+
+    /** 56: "Saves a snapshot of everything that changes can change", when all of it has another value than before. */
+    private static void everythingIsSaved() {
+        PetitionBoard board = Boards.varied();
+        board.saveSnapshot();
+        changeAll(board);
+        board.restoreSnapshot();
+        Check.is("57 the varied board", Boards.lines(board), Boards.lines(Boards.varied()));
+        PetitionBoard due = Boards.varied();
+        changeAll(due);
+        Check.is("57 the later snapshot", Boards.lines(restoredLater()), Boards.lines(due));
+        PetitionBoard dueMore = Boards.varied();
+        changeAll(dueMore);
+        changeMore(dueMore);
+        PetitionBoard more = restoredLater();
+        changeMore(more);
+        Check.is("57 the same changes after it", Boards.lines(more), Boards.lines(dueMore));
+    }
+
+    /** A board with two snapshots, of which the later one is restored. */
+    private static PetitionBoard restoredLater() {
+        PetitionBoard board = Boards.varied();
+        board.saveSnapshot();
+        changeAll(board);
+        board.saveSnapshot();
+        changeMore(board);
+        board.restoreSnapshot();
+        return board;
+    }
+
+    /** What the ranks of the petitioners decide goes by the ranks in the snapshot. */
+    private static void ranksAreRestored() {
+        PetitionBoard board = Boards.varied();
+        board.saveSnapshot();
+        for (int petition : new int[] {9, 6, 4, 5, 3}) {
+            board.withdraw(petition);
+        }
+        for (int officer : Edges.within(0, 4)) {
+            board.file(officer, 8 - officer, 20, officer);
+        }
+        board.restoreSnapshot();
+        int[] queue = {9, 6, 4, 5, 3};
+        int[] ranks = {9, 7, 5, 5, 3};
+        for (int i = 0; i < queue.length; i++) {
+            int petition = queue[i];
+            Check.denied("57 the petitioner's rank of " + petition, board, 8, ranks[i], () -> board.veto(1, petition));
+        }
+        board.file(2, 8, 20, 4);
+        board.file(0, 2, 20, 5);
+        int[] longer = {9, 10, 6, 11, 4, 5, 3};
+        for (int i = 0; i < longer.length; i++) {
+            Check.is("57 the next ones among them, position " + i, board.petitionAt(i), longer[i]);
+        }
+    }
+
     /** "everything that changes can change", also where each limit is reached. */
     private static void snapshotOfTheFullBoard() {
         FULL.after(b -> b.saveSnapshot(), b -> b.withdraw(23), b -> b.withdraw(16), b -> b.setQuorum(1))
@@ -403,5 +498,31 @@ public final class UndoEdgesTest {
         if (!more.isEmpty()) {
             Boards.execute(board, more);
         }
+    }
+
+    /** Each of sixteen rulings is saved, undone, made in another way and restored. */
+    private static void eachRulingOfAnotherLife() {
+        for (int ruling : Edges.within(0, 15)) {
+            for (boolean isGranted : new boolean[] {true, false}) {
+                int[] all = Edges.within(Math.max(0, ruling - 3), ruling - 1);
+                int[] first = Edges.within(0, Math.min(0, ruling - 1));
+                String what = "57 ruling " + ruling + (isGranted ? ", granted" : ", not granted");
+                rulingOfAnotherLife(what, ruling, isGranted, all, first);
+                rulingOfAnotherLife(what + ", first", ruling, isGranted, first, all);
+            }
+        }
+    }
+
+    private static void rulingOfAnotherLife(String what, int ruling, boolean isGranted, int[] cited, int[] others) {
+        PetitionBoard board = Boards.withRulings(ruling);
+        Boards.rule(board, isGranted, cited);
+        board.saveSnapshot();
+        Boards.undo(board, 4 + cited.length);
+        Check.is(what + ", undone", board.rulingCount(), ruling);
+        Boards.rule(board, !isGranted, others);
+        board.restoreSnapshot();
+        PetitionBoard due = Boards.withRulings(ruling);
+        Boards.rule(due, isGranted, cited);
+        Check.is(what, Boards.look(board), Boards.look(due));
     }
 }
