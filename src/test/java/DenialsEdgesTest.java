@@ -27,10 +27,10 @@ public final class DenialsEdgesTest {
     }
 
     private static void notYet(String what, Scene scene) {
-        scene.absent("50 " + what, b -> b.denial());
-        scene.absent("51 " + what, b -> b.denialDetail());
-        scene.absent("52 " + what, b -> b.denialCause());
-        scene.absent("53 " + what, b -> b.denialCauseDetail());
+        scene.nothingKept("50 " + what, b -> b.denial());
+        scene.nothingKept("51 " + what, b -> b.denialDetail());
+        scene.nothingKept("52 " + what, b -> b.denialCause());
+        scene.nothingKept("53 " + what, b -> b.denialCauseDetail());
     }
 
     private static void otherExceptionsAreNoDenials() {
@@ -44,8 +44,8 @@ public final class DenialsEdgesTest {
     private static void is(String what, Scene scene, int number, int detail) {
         scene.answers("50 " + what, number, b -> b.denial());
         scene.answers("51 " + what, detail, b -> b.denialDetail());
-        scene.absent("52 " + what + " has no cause", b -> b.denialCause());
-        scene.absent("53 " + what + " has no cause", b -> b.denialCauseDetail());
+        scene.nothingKept("52 " + what + " has no cause", b -> b.denialCause());
+        scene.nothingKept("53 " + what + " has no cause", b -> b.denialCauseDetail());
     }
 
     /** "Denial 1: a limit is reached; the detail is the limit." */

@@ -157,11 +157,12 @@ public final class LinesEdgesTest {
     /** 49: "the output line, which is initially empty". */
     private static void emptyLine() {
         for (int index : Edges.beyond(0, -1)) {
-            EMPTY.outside("49 index " + index + " of none", b -> b.lineCharacter(index));
+            EMPTY.noLine("49 index " + index + " of none", b -> b.lineCharacter(index));
         }
-        EMPTY.afterRefused(b -> b.writeRow(5)).outside("49 no row was written", b -> b.lineCharacter(0));
-        EMPTY.afterRefused(b -> b.writePetition(0)).outside("49 no petition was written", b -> b.lineCharacter(0));
-        EMPTY.after(b -> b.feed('x')).outside("49 the text is no line", b -> b.lineCharacter(0));
+        EMPTY.afterRefused(b -> b.writeRow(5)).noLine("49 no row was written", b -> b.lineCharacter(0));
+        EMPTY.afterRefused(b -> b.writePetition(0))
+                .noLine("49 no petition was written", b -> b.lineCharacter(0));
+        EMPTY.after(b -> b.feed('x')).noLine("49 the text is no line", b -> b.lineCharacter(0));
     }
 
     /** 49: "the index, from 0"; "Throws IndexOutOfBoundsException if there is no such index". */

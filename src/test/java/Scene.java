@@ -69,43 +69,53 @@ final class Scene {
     }
 
     void outside(String what, Call call) {
-        keeps(what, "IndexOutOfBoundsException", untouched(), call);
+        refuses(what, "IndexOutOfBoundsException", untouched(), call);
     }
 
     void unfit(String what, Call call) {
-        keeps(what, "IllegalArgumentException", untouched(), call);
+        refuses(what, "IllegalArgumentException", untouched(), call);
     }
 
     void absent(String what, Call call) {
+        refuses(what, "NoSuchElementException", untouched(), call);
+    }
+
+    /** For the questions about a fault position or a denial, while none is kept. */
+    void nothingKept(String what, Call call) {
         keeps(what, "NoSuchElementException", untouched(), call);
     }
 
+    /** For the signs of the output line, while there is none. */
+    void noLine(String what, Call call) {
+        keeps(what, "IndexOutOfBoundsException", untouched(), call);
+    }
+
     void illegalState(String what, Call call) {
-        keeps(what, "IllegalStateException", untouched(), call);
+        refuses(what, "IllegalStateException", untouched(), call);
     }
 
     void arithmetic(String what, Call call) {
-        keeps(what, "ArithmeticException", untouched(), call);
+        refuses(what, "ArithmeticException", untouched(), call);
     }
 
     void denied(String what, int number, int detail, Call call) {
         String[] due = untouched().clone();
         due[DENIAL] = number + " " + detail + " NoSuchElementException NoSuchElementException";
-        keeps(what, "UnsupportedOperationException", due, call);
+        refuses(what, "UnsupportedOperationException", due, call);
     }
 
     /** Needs an empty text buffer. */
     void textDenied(String text, int command, int cause, int causeDetail) {
         String[] due = untouched().clone();
         due[DENIAL] = "12 " + command + " " + cause + " " + causeDetail;
-        keeps("45 \"" + text + "\"", "UnsupportedOperationException", due, b -> Boards.execute(b, text));
+        refusesText(text, "UnsupportedOperationException", due);
     }
 
     /** Needs an empty text buffer. */
     void textFault(String text, int position) {
         String[] due = untouched().clone();
         due[FAULT] = String.valueOf(position);
-        keeps("45 \"" + text + "\"", "IllegalArgumentException", due, b -> Boards.execute(b, text));
+        refusesText(text, "IllegalArgumentException", due);
     }
 
     /** A question: nothing changes at all. */
@@ -170,6 +180,37 @@ final class Scene {
         PetitionBoard board = maker.make();
         Boards.undo(board, times);
         return board;
+    }
+
+    /** Also with a line, a text, a fault position and a denial with a cause: no refused call forgets them. */
+    private void refuses(String what, String due, String[] dueViews, Call call) {
+        keeps(what, due, dueViews, call);
+        boolean isDenied = due.equals("UnsupportedOperationException");
+        for (int view = LINE; view <= DENIAL; view++) {
+            String dueView = view == DENIAL && isDenied ? dueViews[DENIAL] : view(view, marked().make());
+            marked().compare(what + ", with all that is kept", view, call, due, dueView);
+        }
+    }
+
+    private Scene marked() {
+        return new Scene(() -> {
+            PetitionBoard board = maker.make();
+            if (Check.answer(() -> board.feed('q')).equals("1")) {
+                Check.answer(() -> board.execute());
+                Boards.feed(board, "quorum " + board.quorum());
+                Check.answer(() -> board.execute());
+                board.feed('q');
+            }
+            board.writeRow(2);
+            return board;
+        });
+    }
+
+    private void refusesText(String text, String due, String[] dueViews) {
+        String what = "45 \"" + text + "\"";
+        keeps(what, due, dueViews, b -> Boards.execute(b, text));
+        Scene written = after(b -> b.writeRow(2));
+        written.compare(what + ", with a line", LINE, b -> Boards.execute(b, text), due, view(LINE, written.make()));
     }
 
     private void keeps(String what, String due, String[] dueViews, Call call) {

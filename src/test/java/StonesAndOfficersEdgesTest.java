@@ -53,11 +53,11 @@ public final class StonesAndOfficersEdgesTest {
         }
         EMPTY.arithmetic("1 meanVotes", b -> b.meanVotes());
         EMPTY.arithmetic("1 grantedShare", b -> b.grantedShare());
-        EMPTY.absent("1 faultPosition", b -> b.faultPosition());
-        EMPTY.absent("1 denial", b -> b.denial());
-        EMPTY.absent("1 denialDetail", b -> b.denialDetail());
-        EMPTY.absent("1 denialCause", b -> b.denialCause());
-        EMPTY.absent("1 denialCauseDetail", b -> b.denialCauseDetail());
+        EMPTY.nothingKept("1 faultPosition", b -> b.faultPosition());
+        EMPTY.nothingKept("1 denial", b -> b.denial());
+        EMPTY.nothingKept("1 denialDetail", b -> b.denialDetail());
+        EMPTY.nothingKept("1 denialCause", b -> b.denialCause());
+        EMPTY.nothingKept("1 denialCauseDetail", b -> b.denialCauseDetail());
         EMPTY.illegalState("1 undo", b -> b.undo());
         EMPTY.illegalState("1 restoreSnapshot", b -> b.restoreSnapshot());
         EMPTY.denied("1 decide", 9, 0, b -> b.decide());

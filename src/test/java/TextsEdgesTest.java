@@ -27,6 +27,7 @@ public final class TextsEdgesTest {
         commandCounts();
         laterCommandsSeeEarlierOnes();
         allOrNone();
+        eachStoneIsMovedBack();
         oneChange();
         faultPosition();
         Check.end();
@@ -62,6 +63,7 @@ public final class TextsEdgesTest {
             scene.illegalState("44 full, character " + (int) character, b -> b.feed(character));
         }
         new Scene(() -> Boards.full()).illegalState("44 at a full board", b -> b.feed('d'));
+        BUSY.after(b -> Boards.feed(b, SIXTY)).illegalState("44 full at a busy board", b -> b.feed('d'));
         PetitionBoard board = new PetitionBoard();
         Boards.feed(board, "stone 5 1;stone 6 1;stone 7 1;stone 10 1;stone 11 1;quorum ");
         Check.is("44 the 60th", board.feed('3'), 60);
@@ -272,6 +274,14 @@ public final class TextsEdgesTest {
         FULL.textDenied("withdraw 16;withdraw 17;decide", 2, 1, 16);
     }
 
+    private static void eachStoneIsMovedBack() {
+        for (int stone : Edges.within(0, 9)) {
+            new Scene(() -> Boards.ready(3, 10))
+                    .after(b -> b.file(0, stone, 20, 0), b -> b.vote(1, 0, true), b -> b.vote(2, 0, true))
+                    .textDenied("decide;decide", 1, 9, 1);
+        }
+    }
+
     /** "The calls .. of execute, that do not throw an exception are the changes": a text is one. */
     private static void oneChange() {
         PetitionBoard board = Boards.ready(0, 1);
@@ -290,10 +300,11 @@ public final class TextsEdgesTest {
 
     /** 46: "Returns the fault position that was kept last"; "if none was kept yet". */
     private static void faultPosition() {
-        EMPTY.absent("46 none", b -> b.faultPosition());
-        EMPTY.after(b -> Boards.execute(b, "quorum 3")).absent("46 none by a match", b -> b.faultPosition());
-        EMPTY.afterRefused(b -> Boards.execute(b, "quorum 2")).absent("46 none by a denial", b -> b.faultPosition());
-        EMPTY.after(b -> Boards.feed(b, "x")).absent("46 none by a character", b -> b.faultPosition());
+        EMPTY.nothingKept("46 none", b -> b.faultPosition());
+        EMPTY.after(b -> Boards.execute(b, "quorum 3")).nothingKept("46 none by a match", b -> b.faultPosition());
+        EMPTY.afterRefused(b -> Boards.execute(b, "quorum 2"))
+                .nothingKept("46 none by a denial", b -> b.faultPosition());
+        EMPTY.after(b -> Boards.feed(b, "x")).nothingKept("46 none by a character", b -> b.faultPosition());
         EMPTY.afterRefused(b -> b.execute()).answers("46 the least", 0, b -> b.faultPosition());
         Scene greatest = EMPTY.afterRefused(b -> Boards.execute(b, SIXTY));
         greatest.answers("46 the greatest", 60, b -> b.faultPosition());

@@ -43,6 +43,7 @@ public final class UndoEdgesTest {
         undoInAnotherLife();
         snapshotOfAnotherLife();
         eachRulingOfAnotherLife();
+        eachStoneOfAnotherLife();
         Check.end();
     }
 
@@ -524,5 +525,20 @@ public final class UndoEdgesTest {
         PetitionBoard due = Boards.withRulings(ruling);
         Boards.rule(due, isGranted, cited);
         Check.is(what, Boards.look(board), Boards.look(due));
+    }
+
+    /** Each of ten stones is saved and then moved, or added in another way, and restored. */
+    private static void eachStoneOfAnotherLife() {
+        for (int stone : Edges.within(0, 9)) {
+            Scene ready = new Scene(() -> Boards.ready(3, stone)).after(b -> b.addStone(20, 9));
+            Scene.Call[] move = {b -> b.saveSnapshot(), b -> b.file(0, stone, 21, 0), b -> b.vote(1, 0, true),
+                b -> b.vote(2, 0, true), b -> b.decide(), b -> b.restoreSnapshot()};
+            Check.is("57 stone " + stone + " is moved back", Boards.lines(ready.after(move).make()),
+                    Boards.lines(ready.make()));
+            Scene.Call[] other = {b -> b.saveSnapshot(), b -> b.undo(), b -> b.addStone(22, 4),
+                b -> b.restoreSnapshot()};
+            Check.is("57 stone " + stone + " is the one saved", Boards.lines(ready.after(other).make()),
+                    Boards.lines(ready.make()));
+        }
     }
 }
