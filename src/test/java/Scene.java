@@ -26,6 +26,8 @@ final class Scene {
     private static final int PAST = SNAPSHOT + PARTS;
     private static final int MOST_UNDOS = 9;
     private static final int VIEWS = PAST + PARTS * (MOST_UNDOS + 1);
+    /** The views of what no change touches. */
+    private static final int[] KEPT = {LINE, TEXT, FAULT, DENIAL, SNAPSHOT, SNAPSHOT + 1, SNAPSHOT + 2};
 
     private final Maker maker;
     private String[] untouched;
@@ -83,6 +85,13 @@ final class Scene {
     /** For the questions about a fault position or a denial, while none is kept. */
     void nothingKept(String what, Call call) {
         keeps(what, "NoSuchElementException", untouched(), call);
+        keepsLine(what, "NoSuchElementException", call);
+    }
+
+    /** For restoreSnapshot, while there is no snapshot. */
+    void noSnapshot(String what, Call call) {
+        keeps(what, "IllegalStateException", untouched(), call);
+        marked().keepsMarks(what, "IllegalStateException", untouched()[DENIAL], call);
     }
 
     /** For the signs of the output line, while there is none. */
@@ -182,19 +191,16 @@ final class Scene {
         return board;
     }
 
-    /** Also with a line, a text, a fault position and a denial with a cause: no refused call forgets them. */
+    /** Also with a line, a text, a fault position, a denial with a cause and a snapshot, which all must stay. */
     private void refuses(String what, String due, String[] dueViews, Call call) {
         keeps(what, due, dueViews, call);
-        boolean isDenied = due.equals("UnsupportedOperationException");
-        for (int view = LINE; view <= DENIAL; view++) {
-            String dueView = view == DENIAL && isDenied ? dueViews[DENIAL] : view(view, marked().make());
-            marked().compare(what + ", with all that is kept", view, call, due, dueView);
-        }
+        marked().after(b -> b.saveSnapshot()).keepsMarks(what, due, dueViews[DENIAL], call);
     }
 
     private Scene marked() {
         return new Scene(() -> {
             PetitionBoard board = maker.make();
+            // A scene with a text of its own has no room for those that keep a fault position and a denial.
             if (Check.answer(() -> board.feed('q')).equals("1")) {
                 Check.answer(() -> board.execute());
                 Boards.feed(board, "quorum " + board.quorum());
@@ -206,11 +212,23 @@ final class Scene {
         });
     }
 
+    private void keepsMarks(String what, String due, String dueDenial, Call call) {
+        boolean isDenied = due.equals("UnsupportedOperationException");
+        for (int view : KEPT) {
+            String dueView = view == DENIAL && isDenied ? dueDenial : view(view, make());
+            compare(what + ", with all that is kept", view, call, due, dueView);
+        }
+    }
+
     private void refusesText(String text, String due, String[] dueViews) {
         String what = "45 \"" + text + "\"";
         keeps(what, due, dueViews, b -> Boards.execute(b, text));
+        keepsLine(what, due, b -> Boards.execute(b, text));
+    }
+
+    private void keepsLine(String what, String due, Call call) {
         Scene written = after(b -> b.writeRow(2));
-        written.compare(what + ", with a line", LINE, b -> Boards.execute(b, text), due, view(LINE, written.make()));
+        written.compare(what + ", with a line", LINE, call, due, view(LINE, written.make()));
     }
 
     private void keeps(String what, String due, String[] dueViews, Call call) {

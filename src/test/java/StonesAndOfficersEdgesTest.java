@@ -59,7 +59,7 @@ public final class StonesAndOfficersEdgesTest {
         EMPTY.nothingKept("1 denialCause", b -> b.denialCause());
         EMPTY.nothingKept("1 denialCauseDetail", b -> b.denialCauseDetail());
         EMPTY.illegalState("1 undo", b -> b.undo());
-        EMPTY.illegalState("1 restoreSnapshot", b -> b.restoreSnapshot());
+        EMPTY.noSnapshot("1 restoreSnapshot", b -> b.restoreSnapshot());
         EMPTY.denied("1 decide", 9, 0, b -> b.decide());
         EMPTY.textFault("", 0);
     }

@@ -218,10 +218,10 @@ public final class UndoEdgesTest {
 
     /** 57: "Throws IllegalStateException if there is no snapshot"; then nothing is restored or forgotten. */
     private static void noSnapshot() {
-        EMPTY.illegalState("57 a new board", b -> b.restoreSnapshot());
-        EMPTY.afterRefused(b -> b.restoreSnapshot()).illegalState("57 once more", b -> b.restoreSnapshot());
+        EMPTY.noSnapshot("57 a new board", b -> b.restoreSnapshot());
+        EMPTY.afterRefused(b -> b.restoreSnapshot()).noSnapshot("57 once more", b -> b.restoreSnapshot());
         Scene eight = new Scene(() -> Boards.ready(3, 5));
-        eight.illegalState("57 with eight changes", b -> b.restoreSnapshot());
+        eight.noSnapshot("57 with eight changes", b -> b.restoreSnapshot());
         eight.afterRefused(b -> b.restoreSnapshot()).answers("57 nothing is forgotten", 8, b -> b.undoCount());
         EMPTY.after(b -> b.saveSnapshot()).answers("57 the empty snapshot", 0, b -> b.restoreSnapshot());
     }
